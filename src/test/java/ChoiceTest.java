@@ -29,6 +29,9 @@ public final class ChoiceTest {
         hall = Hall.of("room h 100 0 0;person a h 20 0 0;law turn 9;law cross (set - 250)*(set - 250);");
         Hall.due("25 for good", hall.best(2, 0), 25);
         Hall.due("SET stays", hall.count(4), 20);
+        hall = Hall.of("room h 100 0 0;person a h 20 0 0;law cross 300 - set;");
+        Hall.due("30 is one, too", hall.best(2, 0), 30);
+        Hall.due("an hour", hall.best(1, 1), 0);
     }
 
     private static void cheap() {
@@ -46,6 +49,14 @@ public final class ChoiceTest {
         Hall.due("an hour of fire for 45, two for 90", hall.cheap(3, 50 + 45 + 45), 11);
         Hall.due("all three hours", hall.cheap(3, 45 + 40 + 35), 13);
         Hall.due("no SET", hall.cheap(3, 45 + 40 + 34), -2);
+        hall = Hall.of("room h 100 0 0;law lose 0 - (set - 100);");
+        Hall.due("below 10 it cools and burns, 10 burns nothing", hall.cheap(9, 0), 10);
+        hall = Hall.of("room h 100 0 0;person a h 20 0 0;law lose 0 - (set >= 290)*400;law cross set < 200;");
+        Hall.due("20 to 28 burn on, 29 an hour: the least, the first", hall.cheap(9, 0), 29);
+        hall = Hall.of("room h 100 0 0;person a h 20 0 0;law cross set < 300;");
+        Hall.due("30 alone", hall.cheap(9, 0), 30);
+        hall = Hall.of("room h 100 0 0;person a h 20 0 0;law lose 0 - (set - 100)/5;law cross set < 200;");
+        Hall.due("by 20 five hours, by 25 five, by 30 five: 20", hall.cheap(9, 0), 20);
     }
 
     private static void hears() {

@@ -117,6 +117,8 @@ public final class DoneTest {
         warm("room h 400 99 9;out 0;", 4);
         warm("room h 300 0 0;law lose 9999;", 0);
         warm("room h 400 0 0;law lose 399;", 1);
+        warm("room h 400 0 0;sun h 0 99;law lose 9999;", 99);
+        warm("room h 400 99 0;sun h 0 99;sun h 0 99;out 0;", 202);
         warm("room h 400 0 0;law lose 400;", 0);
         warm("room h 150 0 0;law lose 0-399;", 549);
         warm("room h 150 0 0;law lose 0-9999;", 550);
@@ -190,7 +192,11 @@ public final class DoneTest {
         }
         Hall.due("the hour", hall.count(3), 9900);
         Hall.due("go(100) there", hall.go(100), -1);
-        Hall.due("9900 isn't behind 9900", hall.go(99), 9999);
+        hall.keep();
+        Hall.due("9900 isn't behind 9900", hall.go(1), 9901);
+        Hall.due("9901 is", hall.go(0), -1);
+        hall.back();
+        Hall.due("nor is it for 99", hall.go(99), 9999);
         Hall.due("behind 9900", hall.go(1), -1);
         Hall.due("go(0) behind 9900", hall.go(0), -1);
         Hall.due("none does", hall.count(3), 9999);
@@ -243,6 +249,24 @@ public final class DoneTest {
         }
         Hall.due("no more", hall.undo(), -1);
         Hall.due("SET as by the fifth", hall.count(4), 9);
+        hall = Hall.of(NowTest.HOUSE);
+        hall.hang(1);
+        hall.jumper(1, true);
+        hall.jumper(0, true);
+        hall.candle(true);
+        for (int i = 0; i < 18; i++) {
+            hall.set(5 + i);
+        }
+        for (int i = 0; i < 18; i++) {
+            hall.undo();
+        }
+        Hall.due("the jumper of 0 and the candle are left", hall.count(14), 2);
+        Hall.due("undo()", hall.undo(), 1);
+        Hall.due("no candle", hall.count(6), 0);
+        Hall.due("undo() the last", hall.undo(), 0);
+        Hall.due("the jumper of 0 is gone, not that of 1", hall.person(0, 6) * 10 + hall.person(1, 6), 1);
+        Hall.due("nor is it hung back", hall.count(5), 1);
+        Hall.due("nothing more", hall.undo(), -1);
     }
 
     private static void images() {
@@ -266,6 +290,7 @@ public final class DoneTest {
         for (int what = 0; what < counts.length; what++) {
             Hall.due("count(" + what + ") as in the image", hall.count(what), counts[what]);
         }
+        Hall.due("nothing to undo", hall.undo(), -1);
         Hall.due("learn(7)", hall.learn(7), 21);
         Hall.due("turnsOf", hall.turnsOf(0, 0) * 10 + hall.turnsOf(1, 0), 11);
         Hall.due("the jumper", hall.person(0, 6), 1);

@@ -127,6 +127,13 @@ public final class NowTest {
         value("(1<2) < (3<2)", 0);
         value("1 < 2 and 2 < 1 or 1 = 1", 1);
         value("2*3+4*5-6/2", 23);
+        value("1+(not 0)", 2);
+        value("1 < (not 0 < 1)", 0);
+        value("not ".repeat(63) + "1", 0);
+        value("not ".repeat(62) + "5", 1);
+        value("1+(".repeat(8) + "1" + ")".repeat(8), 9);
+        value("not (0 or ".repeat(8) + "1" + ")".repeat(8), 1);
+        value("1+(".repeat(7) + "not ".repeat(40) + "(3)" + ")".repeat(7), 8);
     }
 
     private static void errors() {

@@ -168,6 +168,11 @@ public final class TextTest {
         Hall.dueFault("law lose " + repeat("not ", 64) + ";", 1, 265);
         Hall.dueFault("law lose " + repeat("1+", 32) + "1;", 2, 73);
         Hall.dueFault("law lose " + repeat("1+", 31) + "1;law turn 1+1;", 2, 83);
+        for (int i = 0; i < 5; i++) {
+            Hall.due("64 knots time and again", Hall.tell(hall, "room h 1 1 1;law turn 1;law lose " + repeat("1+", 31) + "1;"), 3);
+            Hall.due("its value", hall.law(0, 0), 32);
+            Hall.due("no turn's", hall.law(1, 0), Long.MIN_VALUE);
+        }
         Hall.due("brackets are no knots", Hall.tell(hall, "law lose (1+2)*(3);"), 1);
         Hall.due("count(2) with brackets", hall.count(2), 5);
         Hall.dueFault("law lose 1<2<3;", 1, 12);
@@ -222,6 +227,19 @@ public final class TextTest {
             Hall.due("count(" + what + ") of a new text", hall.count(what), anew[what]);
         }
         Hall.due("no jumper", hall.person(0, 6), 0);
+        Hall.due("no law told by the text ahead", Hall.tell(hall, "room h 1 1 1;room s 1 1 1;law lose 1;sun h 0 9;out 7;"
+            + "price 9;knob 9 s;person a h 1 1 1;"), 8);
+        hall.go(3);
+        Hall.due("another", Hall.tell(hall, "room s 200 0 0;person b s 20 5 0;"), 2);
+        Hall.due("no lose", hall.law(0, 0), Long.MIN_VALUE);
+        Hall.due("no sun", hall.room(0, 3), 0);
+        Hall.due("out", hall.out(0), 100);
+        Hall.due("SET, which it hears", hall.count(4) * 10 + hall.count(5), 200);
+        Hall.due("what was hours ago is as told", hall.person(0, 4), 200);
+        hall.set(21);
+        hall.go(1);
+        Hall.due("the price", hall.count(8), 3);
+        Hall.tell(hall, "room h 150 0 0;person a h 20 0 1;");
         Hall.due("no image", hall.back(), -1);
         Hall.due("nothing to undo", hall.undo(), -1);
         Hall.due("nothing learnt", hall.learn(1), -2);
