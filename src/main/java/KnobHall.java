@@ -4,7 +4,7 @@ import java.util.NoSuchElementException;
 public final class KnobHall {
     public static final int NONE = -1;
 
-    private static final int NEVER = -2;
+    private static final int NOT_SO = -2;
     private static final int TAPE_BYTES = 700;
     private static final int MOST_ROOMS = 5;
     private static final int MOST_PEOPLE = 5;
@@ -84,7 +84,7 @@ public final class KnobHall {
 
     public int text(int n) {
         if (n < 0 || n > taped) {
-            return NEVER;
+            return NOT_SO;
         }
         taped = 0;
         reader.begin(n, spare);
@@ -120,9 +120,18 @@ public final class KnobHall {
 
     public int named(int what, int letters) {
         if (what == 0) {
-            return told.rooms.numberOf(letters);
+            return placeOf(letters, told.rooms.names, told.rooms.size);
         }
-        return what == 1 ? told.people.numberOf(letters) : NONE;
+        return what == 1 ? placeOf(letters, told.people.names, told.people.size) : NONE;
+    }
+
+    private static int placeOf(int letters, int[] names, int size) {
+        for (int at = 0; at < size; at++) {
+            if (names[at] == letters) {
+                return at;
+            }
+        }
+        return NONE;
     }
 
     // ---- what is now ----
@@ -387,7 +396,7 @@ public final class KnobHall {
             return NONE;
         }
         int times = now.learnTimes[hour];
-        return times == 0 ? NEVER : now.learnSum[hour] / times;
+        return times == 0 ? NOT_SO : now.learnSum[hour] / times;
     }
 
     public int turnsOf(int person, int n) {
@@ -432,7 +441,7 @@ public final class KnobHall {
             }
             trial.run(1);
         }
-        return trial.feltBy(person) >= wish ? n : NEVER;
+        return trial.feltBy(person) >= wish ? n : NOT_SO;
     }
 
     public int chance(int seed, int n, int room, int tenths) {
@@ -493,7 +502,7 @@ public final class KnobHall {
             }
             trial.run(1);
         }
-        return trial.warm[room] >= tenths ? FAR : NEVER;
+        return trial.warm[room] >= tenths ? FAR : NOT_SO;
     }
 
     private boolean canBeWarm(int room, int tenths) {
@@ -513,10 +522,10 @@ public final class KnobHall {
         }
         int first = hoursTillWarm(room, tenths, degrees);
         int second = hoursTillWarm(room, tenths, others);
-        if (second == NEVER) {
+        if (second == NOT_SO) {
             return 0;
         }
-        return first == NEVER || second < first ? 1 : 0;
+        return first == NOT_SO || second < first ? 1 : 0;
     }
 
     public int best(int n, int what) {
@@ -541,13 +550,13 @@ public final class KnobHall {
         if (!isWithin(n, 1, NEAR) || !isWithin(bound, 0, 99999)) {
             return NONE;
         }
-        int cheapest = NEVER;
+        int cheapest = NOT_SO;
         int least = 0;
         for (int degrees = LOWEST; degrees <= HIGHEST; degrees++) {
             tryTurnedBy(degrees);
             trial.run(n);
             boolean bearable = trial.crossOfAll() <= bound;
-            if (bearable && (cheapest == NEVER || trial.paid < least)) {
+            if (bearable && (cheapest == NOT_SO || trial.paid < least)) {
                 cheapest = degrees;
                 least = trial.paid;
             }
@@ -587,7 +596,7 @@ public final class KnobHall {
                 return hours;
             }
         }
-        return NEVER;
+        return NOT_SO;
     }
 
     private int paidBy(int degrees, int n) {
@@ -679,33 +688,33 @@ public final class KnobHall {
         return isBestSaying(mine, how, theirs, otherHow) && isBestSaying(theirs, otherHow, mine, how);
     }
 
+    /** The k-th of the nine ways to say that rest; NOT_SO behind the last one. */
+    private int restAt(int one, int other, int k) {
+        int found = 0;
+        for (int way = 0; way < 9; way++) {
+            if (isRest(one, way / 3, other, way % 3)) {
+                if (found == k) {
+                    return 10 * (way / 3) + way % 3;
+                }
+                found++;
+            }
+        }
+        return NOT_SO;
+    }
+
     public int rests(int one, int other) {
         if (!areTwo(one, other)) {
             return NONE;
         }
         int found = 0;
-        for (int pair = 0; pair < 9; pair++) {
-            if (isRest(one, pair / 3, other, pair % 3)) {
-                found++;
-            }
+        while (found < 9 && restAt(one, other, found) != NOT_SO) {
+            found++;
         }
         return found;
     }
 
     public int rest(int one, int other, int k) {
-        if (!areTwo(one, other) || k < 0) {
-            return NONE;
-        }
-        int found = 0;
-        for (int pair = 0; pair < 9; pair++) {
-            if (isRest(one, pair / 3, other, pair % 3)) {
-                if (found == k) {
-                    return 10 * (pair / 3) + pair % 3;
-                }
-                found++;
-            }
-        }
-        return NEVER;
+        return areTwo(one, other) && k >= 0 ? restAt(one, other, k) : NONE;
     }
 
     // ---- how late one feels by a knob's wear ----
@@ -1065,8 +1074,7 @@ public final class KnobHall {
         private final Formula formula;
         private House house;
         private int number;
-        private int letters;
-        private int roomRead;
+        private int toldRoom;
         int fault;
         int place;
 
@@ -1145,14 +1153,24 @@ public final class KnobHall {
             return true;
         }
 
-        private boolean readNewName(boolean isTold) {
+        /** A number 0 .. most into a row that has this place. */
+        private boolean readInto(int[] row, int at, int most) {
+            boolean good = readNumber(0, most);
+            if (good) {
+                row[at] = number;
+            }
+            return good;
+        }
+
+        /** A name that the first ones of a row that has this place don't have. */
+        private boolean readName(int[] names, int at) {
             if (tokens.kind != Tokens.FREE) {
                 return fails(1);
             }
-            if (isTold) {
+            if (placeOf(tokens.value, names, at) != NONE) {
                 return fails(3);
             }
-            letters = tokens.value;
+            names[at] = tokens.value;
             tokens.advance();
             return true;
         }
@@ -1161,8 +1179,8 @@ public final class KnobHall {
             if (tokens.kind != Tokens.FREE) {
                 return fails(1);
             }
-            roomRead = house.rooms.numberOf(tokens.value);
-            if (roomRead == NONE) {
+            toldRoom = placeOf(tokens.value, house.rooms.names, house.rooms.size);
+            if (toldRoom == NONE) {
                 return fails(4);
             }
             tokens.advance();
@@ -1176,24 +1194,12 @@ public final class KnobHall {
                 return fails(2);
             }
             tokens.advance();
-            if (!readNewName(rooms.numberOf(tokens.value) != NONE)) {
-                return false;
+            boolean good = readName(rooms.names, at) && readInto(rooms.warm, at, 400)
+                && readInto(rooms.leak, at, 99) && readInto(rooms.heat, at, 99);
+            if (good) {
+                rooms.size++;
             }
-            rooms.names[at] = letters;
-            if (!readNumber(0, 400)) {
-                return false;
-            }
-            rooms.warm[at] = number;
-            if (!readNumber(0, 99)) {
-                return false;
-            }
-            rooms.leak[at] = number;
-            if (!readNumber(0, 99)) {
-                return false;
-            }
-            rooms.heat[at] = number;
-            rooms.size++;
-            return true;
+            return good;
         }
 
         private boolean readPerson() {
@@ -1203,28 +1209,16 @@ public final class KnobHall {
                 return fails(2);
             }
             tokens.advance();
-            if (!readNewName(people.numberOf(tokens.value) != NONE)) {
+            if (!readName(people.names, at) || !readToldRoom()) {
                 return false;
             }
-            people.names[at] = letters;
-            if (!readToldRoom()) {
-                return false;
+            people.sits[at] = toldRoom;
+            boolean good = readInto(people.wants, at, 40) && readInto(people.late, at, LATEST)
+                && readInto(people.passes, at, DAY - 1);
+            if (good) {
+                people.size++;
             }
-            people.sits[at] = roomRead;
-            if (!readNumber(0, 40)) {
-                return false;
-            }
-            people.wants[at] = number;
-            if (!readNumber(0, LATEST)) {
-                return false;
-            }
-            people.late[at] = number;
-            if (!readNumber(0, DAY - 1)) {
-                return false;
-            }
-            people.passes[at] = number;
-            people.size++;
-            return true;
+            return good;
         }
 
         private boolean readSun() {
@@ -1236,17 +1230,12 @@ public final class KnobHall {
             if (!readToldRoom()) {
                 return false;
             }
-            house.sunRooms[at] = roomRead;
-            if (!readNumber(0, DAY - 1)) {
-                return false;
+            house.sunRooms[at] = toldRoom;
+            boolean good = readInto(house.sunHours, at, DAY - 1) && readInto(house.sunTenths, at, 99);
+            if (good) {
+                house.suns++;
             }
-            house.sunHours[at] = number;
-            if (!readNumber(0, 99)) {
-                return false;
-            }
-            house.sunTenths[at] = number;
-            house.suns++;
-            return true;
+            return good;
         }
 
         private boolean readOut() {
@@ -1255,12 +1244,11 @@ public final class KnobHall {
                 return fails(2);
             }
             tokens.advance();
-            if (!readNumber(0, 400)) {
-                return false;
+            boolean good = readInto(house.outTenths, at, 400);
+            if (good) {
+                house.outs++;
             }
-            house.outTenths[at] = number;
-            house.outs++;
-            return true;
+            return good;
         }
 
         private boolean readKnob() {
@@ -1275,7 +1263,7 @@ public final class KnobHall {
             if (!readToldRoom()) {
                 return false;
             }
-            house.hears = roomRead;
+            house.hears = toldRoom;
             house.knobTold = true;
             return true;
         }
@@ -1381,7 +1369,7 @@ public final class KnobHall {
                 } else if (top > 1) {
                     top--;
                     long value = joined(kind, stack[top - 1], stack[top]);
-                    if (value == ERROR) {
+                    if (value > GREATEST || value < -GREATEST) {
                         return ERROR;
                     }
                     stack[top - 1] = value;
@@ -1390,14 +1378,17 @@ public final class KnobHall {
             return top > 0 ? stack[0] : ERROR;
         }
 
+        /** Of two values that are no ERROR; beyond them with one. */
         private static long joined(int kind, long left, long right) {
             switch (kind) {
                 case '+':
-                    return bounded(left + right);
+                    return left + right;
                 case '-':
-                    return bounded(left - right);
+                    return left - right;
                 case '*':
-                    return product(left, right);
+                    // Two great values would go beyond a long: looked at by dividing.
+                    long most = left == 0 ? GREATEST : GREATEST / (left < 0 ? -left : left);
+                    return right > most || right < -most ? ERROR : left * right;
                 case '/':
                     return right == 0 ? ERROR : left / right;
                 case '<':
@@ -1420,20 +1411,6 @@ public final class KnobHall {
                     return ERROR;
             }
         }
-
-        private static long bounded(long value) {
-            return value > GREATEST || value < -GREATEST ? ERROR : value;
-        }
-
-        /** Looked at before it is worked out: two great values go beyond a long. */
-        private static long product(long left, long right) {
-            long size = left < 0 ? -left : left;
-            long times = right < 0 ? -right : right;
-            if (size != 0 && times > GREATEST / size) {
-                return ERROR;
-            }
-            return left * right;
-        }
     }
 
     private static final class Rooms {
@@ -1442,15 +1419,6 @@ public final class KnobHall {
         final int[] warm = new int[MOST_ROOMS];
         final int[] leak = new int[MOST_ROOMS];
         final int[] heat = new int[MOST_ROOMS];
-
-        int numberOf(int letters) {
-            for (int room = 0; room < size; room++) {
-                if (names[room] == letters) {
-                    return room;
-                }
-            }
-            return NONE;
-        }
     }
 
     private static final class People {
@@ -1460,15 +1428,6 @@ public final class KnobHall {
         final int[] wants = new int[MOST_PEOPLE];
         final int[] late = new int[MOST_PEOPLE];
         final int[] passes = new int[MOST_PEOPLE];
-
-        int numberOf(int letters) {
-            for (int person = 0; person < size; person++) {
-                if (names[person] == letters) {
-                    return person;
-                }
-            }
-            return NONE;
-        }
     }
 
     /** All that a text tells; hours don't change it. */

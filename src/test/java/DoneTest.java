@@ -251,8 +251,8 @@ public final class DoneTest {
         Hall.due("SET as by the fifth", hall.count(4), 9);
         hall = Hall.of(NowTest.HOUSE);
         hall.hang(1);
-        hall.jumper(1, true);
         hall.jumper(0, true);
+        hall.jumper(1, true);
         hall.candle(true);
         for (int i = 0; i < 18; i++) {
             hall.set(5 + i);
@@ -260,11 +260,11 @@ public final class DoneTest {
         for (int i = 0; i < 18; i++) {
             hall.undo();
         }
-        Hall.due("the jumper of 0 and the candle are left", hall.count(14), 2);
+        Hall.due("the jumper of 1 and the candle are left", hall.count(14), 2);
         Hall.due("undo()", hall.undo(), 1);
         Hall.due("no candle", hall.count(6), 0);
         Hall.due("undo() the last", hall.undo(), 0);
-        Hall.due("the jumper of 0 is gone, not that of 1", hall.person(0, 6) * 10 + hall.person(1, 6), 1);
+        Hall.due("the jumper of 1 is gone, not that of 0", hall.person(0, 6) * 10 + hall.person(1, 6), 10);
         Hall.due("nor is it hung back", hall.count(5), 1);
         Hall.due("nothing more", hall.undo(), -1);
     }

@@ -97,6 +97,8 @@ public final class TextTest {
         Hall.dueFault("room h 1 1 1;knob h 20;", 1, 18);
         Hall.dueFault("law;", 1, 3);
         Hall.dueFault("law wish 1;", 1, 4);
+        Hall.dueFault("law or 1;", 1, 4);
+        Hall.dueFault("law law 1;", 1, 4);
         Hall.dueFault("price 1", 1, 7);
     }
 
