@@ -929,7 +929,7 @@ public final class KnobHall {
 
     /** Reads an E into laws, its signs behind what they join. */
     private static final class Formula {
-        private static final int JOINS = 3;
+        private static final int DENIES = 3;
         private static final int COMPARES = 4;
 
         private final Tokens tokens;
@@ -1009,7 +1009,7 @@ public final class KnobHall {
                 return 0;
             }
             int rank = rankOf(kind);
-            if (rank == 0 || rank == JOINS || rank == COMPARES && compared[brackets]) {
+            if (rank == 0 || rank == DENIES || rank == COMPARES && compared[brackets]) {
                 return 1;
             }
             if (laws.knots >= MOST_KNOTS) {
@@ -1048,7 +1048,7 @@ public final class KnobHall {
                 case Tokens.AND:
                     return 2;
                 case Tokens.NOT:
-                    return JOINS;
+                    return DENIES;
                 case '<':
                 case '=':
                 case '>':
