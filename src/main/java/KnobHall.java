@@ -24,7 +24,7 @@ public final class KnobHall {
     private static final int LONGEST_WEAR = 60;
     private static final int FAR = 200;
     private static final int NEAR = 99;
-    private static final int LAST_START = 9900;
+    private static final int LAST_HOUR = 9900;
     private static final int LAST_OUT = 9999;
 
     private static final int LOSE = 0;
@@ -322,7 +322,7 @@ public final class KnobHall {
     }
 
     public int go(int n) {
-        if (!isWithin(n, 0, NEAR) || now.hour > LAST_START) {
+        if (!isWithin(n, 0, NEAR) || now.hour + n > LAST_HOUR) {
             return NONE;
         }
         now.run(n);

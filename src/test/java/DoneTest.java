@@ -11,6 +11,7 @@ public final class DoneTest {
         byNumbers();
         crossness();
         farAway();
+        beyondTheLastHour();
         undoing();
         undoingTwenty();
         images();
@@ -190,17 +191,30 @@ public final class DoneTest {
         for (int i = 0; i < 100; i++) {
             hall.go(99);
         }
-        Hall.due("the hour", hall.count(3), 9900);
+        Hall.due("9900 isn't behind 9900", hall.count(3), 9900);
         Hall.due("go(100) there", hall.go(100), -1);
-        hall.keep();
-        Hall.due("9900 isn't behind 9900", hall.go(1), 9901);
-        Hall.due("9901 is", hall.go(0), -1);
-        hall.back();
-        Hall.due("nor is it for 99", hall.go(99), 9999);
-        Hall.due("behind 9900", hall.go(1), -1);
-        Hall.due("go(0) behind 9900", hall.go(0), -1);
-        Hall.due("none does", hall.count(3), 9999);
+        Hall.due("go(1) there", hall.go(1), -1);
+        Hall.due("go(99) there", hall.go(99), -1);
+        Hall.due("none does", hall.count(3), 9900);
+        Hall.due("go(0) there", hall.go(0), 9900);
         Hall.due("ahead goes on", hall.ahead(200, 3, 0), 0);
+    }
+
+    private static void beyondTheLastHour() {
+        KnobHall hall = Hall.of("room h 100 1 1;");
+        hall.go(16);
+        for (int i = 0; i < 214; i++) {
+            hall.go(46);
+        }
+        hall.set(25);
+        int warm = hall.room(0, 0);
+        Hall.due("it would be 9906", hall.go(46), -1);
+        Hall.due("it would be 9901", hall.go(41), -1);
+        Hall.due("it stays 9860", hall.count(3), 9860);
+        Hall.due("as warm", hall.room(0, 0), warm);
+        Hall.due("no hour went by", hall.count(14), 1);
+        Hall.due("up to the last one", hall.go(40), 9900);
+        Hall.due("hours went by", hall.count(14), 0);
     }
 
     private static void undoing() {

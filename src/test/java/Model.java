@@ -662,7 +662,7 @@ final class Model {
     }
 
     int go(int n) {
-        if (beyond(n, 0, 99) || now.hour() > 9900) {
+        if (beyond(n, 0, 99) || beyond(now.hour() + n, 0, 9900)) {
             return -1;
         }
         for (int i = 0; i < n; i++) {
