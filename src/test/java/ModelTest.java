@@ -295,8 +295,20 @@ public final class ModelTest {
         same("named(" + what + "," + letters + ")", hall.named(what, letters), model.named(what, letters));
     }
 
+    /** Near the last HOUR, where some goes are refused. */
+    private void march() {
+        int n = 90 + upTo(9);
+        int most = 9900 / n;
+        for (int i = upTo(1); i < most; i++) {
+            same("go(" + n + ")", hall.go(n), model.go(n));
+        }
+    }
+
     private void run() {
         tellBoth();
+        if (upTo(39) == 0) {
+            march();
+        }
         for (int i = 0; i < 60; i++) {
             int kind = upTo(9);
             if (kind == 0 && upTo(2) == 0) {
