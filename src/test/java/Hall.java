@@ -5,6 +5,7 @@ import java.util.NoSuchElementException;
 final class Hall {
     private static int wrong;
     private static int looked;
+    private static String about = "";
 
     private Hall() { }
 
@@ -57,11 +58,20 @@ final class Hall {
         }
     }
 
+    /** What the answers that are looked at from now on are about. */
+    static void about(String sentence) {
+        about = sentence;
+    }
+
+    static int looked() {
+        return looked;
+    }
+
     static void due(String what, long got, long want) {
         looked++;
         if (got != want) {
             wrong++;
-            System.out.println(what + " answered " + got + ", due is " + want);
+            System.out.println(about + what + " answered " + got + ", due is " + want);
         }
     }
 
