@@ -111,6 +111,13 @@ final class EdgesOfChance {
                 Hall.due("tenths " + wrong, hall.chance(0, 1, 0, wrong), -1);
             }
             Hall.due("of a new object", new KnobHall().chance(0, 1, 0, 0), -1);
+            // As it goes but for OUT, whatever was tried ahead of it: nothing lost, nobody turning.
+            hall = Hall.of("room h 200 0 10;person a h 30 0 0;law lose outer - outer + 5;law turn 9;");
+            hall.tried(4, 0, 3);
+            Hall.due("200 - 5, 5 more in two", hall.chance(0, 3, 0, 205), 10);
+            Hall.due("no more", hall.chance(0, 3, 0, 206), 0);
+            hall.soon(0, 300, 5);
+            Hall.due("people turn it", hall.chance(0, 3, 0, 205), 10);
             asked("chance(7, 99, 0, 200)", other -> other.chance(7, 99, 0, 200));
             asked("chance(7, 100, 0, 200)", other -> other.chance(7, 100, 0, 200));
         });
@@ -130,6 +137,20 @@ final class EdgesOfChance {
             Hall.due("nothing is lost", hall.tried(4, 0, 2), 300);
             hall = Hall.of("room h 100 50 0;person a h 20 0 9;law lose 100;law cross leak + felt;");
             Hall.due("nor by a law", hall.tried(4, 0, 2), 300);
+        });
+        Edge.holds("==== 3.", "0 nobody turns, 1 no SUN", () -> {
+            KnobHall hall = Hall.of("room h 100 0 0;person a h 20 0 0;sun h 0 30;law turn 1;law cross felt + set;knob 5 h;");
+            // 130 from HOUR 0 on, SET 6.
+            Hall.due("as it goes", hall.ahead(2, 2, 0), 2 * (130 + 60));
+            Hall.due("nobody turns", hall.tried(0, 0, 2), 2 * (130 + 50));
+            Hall.due("no SUN", hall.tried(1, 0, 2), 2 * (100 + 60));
+            Hall.due("as it goes still", hall.ahead(2, 2, 0), 2 * (130 + 60));
+        });
+        Edge.holds("==== 3.", "3 nobody feels LATE", () -> {
+            KnobHall hall = Hall.of("room h 100 0 10;person a h 20 5 9;person b h 20 1 9;knob 30 h;law cross felt;");
+            Hall.due("as it goes", hall.ahead(2, 2, 0), 100 + 100 + 100 + 110);
+            Hall.due("nobody feels LATE", hall.tried(3, 0, 2), 110 + 110 + 120 + 120);
+            Hall.due("as it goes still", hall.ahead(2, 2, 0), 410);
         });
         Edge.holds("==== 3.", "2 PERSON i isn't there", () -> {
             KnobHall hall = Hall.of("room h 100 0 0;person a h 20 0 0;person b h 20 0 1;law turn 1;law cross wish/100 + set/10;");

@@ -205,10 +205,15 @@ final class EdgesOfChoice {
                 hall.set(5);
                 Hall.due("SET 5 as now", hall.night(1), 0);
             }
-            // From now on, HOUR 5: one HOUR of this night, then all of the next one but 5.
+        });
+        Edge.holds("==== 3.", "NIGHT for n DAYS (24 HOURS each, from now on):", () -> {
+            // Eight HOURS of 24, wherever they begin.
             KnobHall hall = Hall.of("room h 150 0 0;price 1;");
-            hall.go(5);
-            Hall.due("from HOUR 5 on", hall.night(1), -8);
+            for (int hour = 0; hour <= 24; hour++) {
+                Hall.due("a day from HOUR " + hour + " on", hall.night(1), -8);
+                Hall.due("a week from HOUR " + hour + " on", hall.night(7), -56);
+                hall.go(1);
+            }
         });
         Edge.holds("Promise 22", "NIGHT (n 1 .. 7; it may be below 0); Integer.MIN_VALUE: no such n.", () -> {
             KnobHall hall = Hall.of("room h 150 0 0;price 99;");

@@ -119,6 +119,18 @@ final class EdgesOfFaults {
             Hall.due("those of another law don't count", Hall.tell(new KnobHall(),
                 "law lose " + "(".repeat(8) + "1" + ")".repeat(8) + ";law turn " + "(".repeat(8) + "1" + ")".repeat(8) + ";"), 2);
             Hall.dueFault("law lose (1);law turn " + "(".repeat(9), 2, 30);
+            // Nor do those that a text with a FAULT left open, and nothing is left of its signs.
+            KnobHall hall = new KnobHall();
+            Hall.due("a FAULT", Hall.tell(hall, "law lose 1 + not (2 * (3 < (((((1 + #"), -1);
+            Hall.due("a FAULT", Hall.tell(hall, "law lose 1 + (2 * (3 < ((((((1 + #"), -1);
+            Hall.due("eight then", Hall.tell(hall, "room h 1 1 1;law lose " + "(".repeat(8) + "7" + ")".repeat(8) + ";"), 2);
+            Hall.due("its value", hall.law(0, 0), 7);
+            Hall.tell(hall, "law lose 1 + ((2 #");
+            Hall.due("one ')' too many then", Hall.tell(hall, "law lose 7);"), -1);
+            Hall.due("its place", hall.fault(1), 10);
+            Hall.tell(hall, "law lose 1 < #");
+            Hall.due("a comparison then", Hall.tell(hall, "room h 1 1 1;law lose 2 < 3;"), 2);
+            Hall.due("its value", hall.law(0, 0), 1);
         });
     }
 
@@ -148,7 +160,16 @@ final class EdgesOfFaults {
             Hall.dueFault("law lose not 1" + "+1".repeat(31) + ";law turn 1;", 2, 86);
             Hall.dueFault("law lose not 1" + "+1".repeat(31) + ";law turn (warm);", 2, 87);
             knots("law lose not ((((((((1))))))))" + "+(1)".repeat(31) + ";", 1);
+            // All of them are worth something: 63 times not, in eight brackets.
+            String nots = "(not ".repeat(8) + "not ".repeat(55) + "#" + ")".repeat(8) + ";";
+            Hall.due("63 times not of 0", Hall.of("room h 1 1 1;law lose " + nots.replace("#", "0")).law(0, 0), 1);
+            Hall.due("63 times not of 1", Hall.of("room h 1 1 1;law lose " + nots.replace("#", "1")).law(0, 0), 0);
             // Those of a text ahead, or of one with a FAULT, don't count.
+            KnobHall again = new KnobHall();
+            for (int i = 1; i < 5; i++) {
+                Hall.due("time and again", Hall.tell(again, "room h 1 1 1;law turn 1;law lose " + i + "+1".repeat(31) + ";"), 3);
+                Hall.due("its value", again.law(0, 0), i + 31);
+            }
             KnobHall hall = Hall.of("law lose not 1" + "+1".repeat(31) + ";");
             Hall.due("one more", Hall.tell(hall, "law lose 1" + "+1".repeat(32) + ";"), -1);
             Hall.due("its KNOTS stay", hall.count(2), 64);

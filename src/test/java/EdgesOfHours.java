@@ -319,6 +319,11 @@ final class EdgesOfHours {
             value("0 or 0", 0);
             value("0 or 0-7", 1);
             value("7 or 0", 1);
+            value("1 or 1 and 0", 1);
+            value("0 and 1 or 1", 1);
+            value("(1 or 1) and 0", 0);
+            value("(0 or 7) + (3 and 4)", 2);
+            value("not 0 and 0", 0);
             value("0 and 1/0", ERROR);
             value("1/0 and 0", ERROR);
             value("1 or 1/0", ERROR);

@@ -178,6 +178,17 @@ final class EdgesOfNow {
             Hall.due("a CANDLE, not ON", hall.count(6) * 10 + hall.count(7), 10);
             Hall.due("no fire by asking", hall.count(9), 0);
         });
+        Edge.holds("Promise 44", "10 TURNS, 11 CROSS of all", () -> {
+            Hall.due("of nobody", new KnobHall().count(10) + new KnobHall().count(11), 0);
+            KnobHall hall = Hall.of(FULL + "law turn 1;law cross wish;");
+            hall.go(5);
+            Hall.due("four of five passed", hall.count(10), 4);
+            Hall.due("of all five, in 5 HOURS", hall.count(11), 5 * (110 + 120 + 130 + 140 + 150));
+            Hall.due("more of all five", hall.ahead(1, 2, 0), 650);
+            hall.set(30);
+            hall.go(1);
+            Hall.due("30 is no other SET", hall.count(10), 4);
+        });
         Edge.holds("Promise 44", "2 KNOTS", () -> {
             Hall.due("none", Hall.of("room h 1 1 1;").count(2), 0);
             Hall.due("of all E", Hall.of("law lose 1;law turn 1+1;law cross not (warm < 2);").count(2), 8);

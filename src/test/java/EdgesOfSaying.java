@@ -46,6 +46,12 @@ final class EdgesOfSaying {
             // 41 by 2 is 20: a has it. b would say more, a then less: 18 and 23 are 20, where neither gains.
             due(20, 21, 21);
             due(21, 20, 12);
+            due(6, 7, 21);
+            // Near the end who is off would say otherwise again and again: no REST at all.
+            due(5, 6);
+            due(4, 6);
+            due(29, 31);
+            due(20, 40);
             // However far they are apart, each has it a degree nearer for 6.
             due(0, 40, 21);
         });

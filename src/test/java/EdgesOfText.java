@@ -88,25 +88,54 @@ final class EdgesOfText {
             Hall.due("text(5), a ';' short", hall.text(5), -1);
             Hall.due("its place", hall.fault(1), 5);
             Hall.due("empty with a FAULT, too", hall.feed(0, 0, 0, 0, 0), 20);
+            // A word and a number end with the TEXT, though the TAPE goes on.
+            dueCut("price 1;", 4, 1, 0);
+            dueCut("room h 1 1 1;", 6, 1, 6);
+            dueCut("out 401;", 6, 1, 6);
+            dueCut("out 401;", 7, 2, 4);
+            dueCut("law lose 10000;", 13, 1, 13);
+            dueCut("law lose warm;", 12, 1, 9);
         });
+    }
+
+    /** The FAULT of a text's first bytes. */
+    private static void dueCut(String text, int n, int fault, int place) {
+        KnobHall hall = new KnobHall();
+        int[] numbers = Hall.numbers(Hall.bytes(text));
+        hall.feed(numbers[0], numbers[1], numbers[2], numbers[3], numbers[4]);
+        Hall.due("text(" + n + ") of " + text, hall.text(n), -1);
+        dueFault("text(" + n + ") of " + text, hall, fault, place);
     }
 
     private static void anew() {
         Edge.holds("Promise 3", "(HOUR 0, no CANDLE, no JUMPERS, no WEAR, all KNOWN, no IMAGE, nothing to undo then)", () -> {
             KnobHall hall = Halls.rich();
+            hall.known(0);
             hall.text(0);
             Hall.due("of two rooms, none", hall.count(0), 0);
             Hall.due("text", Hall.tell(hall, Halls.HOUSE), Halls.LINES);
-            Edge.leaves("a text ahead", () -> Hall.of(Halls.HOUSE), other -> {
-                Hall.tell(other, "room x 7 7 7;room h 9 9 9;person b h 1 1 1;sun h 0 9;out 9;knob 9 x;price 9;law cross 9;");
-                other.wear(1, 5, false);
-                other.known(0);
-                other.candle(true);
-                other.jumper(0, true);
-                other.go(30);
-                other.keep();
-                other.set(30);
+            Edge.leaves("texts ahead", () -> Hall.of(Halls.HOUSE), other -> {
+                useUp(other);
                 Hall.tell(other, Halls.HOUSE);
+            });
+            Edge.leaves("texts ahead of hours", () -> {
+                KnobHall one = Hall.of(Halls.HOUSE);
+                one.go(30);
+                return one;
+            }, other -> {
+                useUp(other);
+                Hall.tell(other, Halls.HOUSE);
+                other.go(30);
+            });
+            // What isn't told is as without, whatever the texts ahead told.
+            Edge.leaves("texts ahead of a short one", () -> {
+                KnobHall one = Hall.of("room h 100 9 9;room s 90 1 1;person a h 20 1 0;");
+                one.go(30);
+                return one;
+            }, other -> {
+                useUp(other);
+                Hall.tell(other, "room h 100 9 9;room s 90 1 1;person a h 20 1 0;");
+                other.go(30);
             });
             Hall.due("HOUR", hall.count(3), 0);
             Hall.due("CANDLE", hall.count(6), 0);
@@ -118,6 +147,23 @@ final class EdgesOfText {
             Hall.due("undo()", hall.undo(), -1);
             Hall.due("back()", hall.back(), -1);
         });
+    }
+
+    /** Two texts that tell all, and hours in both: no row of the hall is as it was made. */
+    private static void useUp(KnobHall hall) {
+        for (int i = 0; i < 2; i++) {
+            Hall.tell(hall, "room x 7 7 7;room h 9 9 9;room y 5 5 5;person b h 9 1 1;person a x 1 5 0;person c y 30 2 7;sun h 0 9;"
+                + "sun y 7 9;out 9;out 7;out 5;knob 9 y;price 9;law lose 1;law turn 9 - 18*(set > 200);law cross 9;");
+            hall.wear(1, 5, false);
+            hall.known(0);
+            hall.candle(true);
+            hall.jumper(0, true);
+            hall.jumper(1, true);
+            hall.go(30);
+            hall.keep();
+            hall.set(30);
+            hall.hang(1);
+        }
     }
 
     private static void fault() {

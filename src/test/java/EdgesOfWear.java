@@ -237,6 +237,17 @@ final class EdgesOfWear {
                 Hall.due("person " + wrong, hall.lately(wrong), -1);
             }
             Hall.due("of a new object", new KnobHall().lately(0), -1);
+            // Whatever was tried ahead of it.
+            hall.soon(0, 300, 5);
+            hall.tried(3, 0, 9);
+            hall.tried(2, 0, 9);
+            hall.strip(0, 9);
+            hall.chance(1, 9, 0, 100);
+            Hall.due("as before", hall.lately(0), 32);
+            hall.soon(0, 300, 5);
+            Hall.due("behind a question in which nobody turns", hall.lately(0), 32);
+            hall.tried(4, 0, 9);
+            Hall.due("behind one in which nothing is lost", hall.lately(0), 32);
             Edge.leaves("lately(0)", Halls::rich, other -> other.lately(0));
             Edge.leaves("lately(2)", Halls::rich, other -> Hall.due("lately", other.lately(2), -1));
         });
