@@ -128,6 +128,9 @@ final class EdgesOfFaults {
             Hall.tell(hall, "law lose 1 + ((2 #");
             Hall.due("one ')' too many then", Hall.tell(hall, "law lose 7);"), -1);
             Hall.due("its place", hall.fault(1), 10);
+            Hall.tell(hall, "law lose not #");
+            Hall.due("without that not", Hall.tell(hall, "room h 1 1 1;law lose 7;"), 2);
+            Hall.due("its value", hall.law(0, 0), 7);
             Hall.tell(hall, "law lose 1 < #");
             Hall.due("a comparison then", Hall.tell(hall, "room h 1 1 1;law lose 2 < 3;"), 2);
             Hall.due("its value", hall.law(0, 0), 1);
