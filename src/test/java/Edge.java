@@ -54,9 +54,14 @@ final class Edge {
         return DOC.substring(start, end < 0 ? DOC.length() : end);
     }
 
-    /** The sentence stands in that part of the document, and the test, which is its own, holds it. */
-    static void holds(String part, String sentence, Runnable test) {
-        Hall.about(part + " \"" + sentence + "\": ");
+    /** The sentence stands in the promise's own part of the document. */
+    static void holds(int promise, String sentence, Runnable test) {
+        holds(promise, "Promise " + promise, sentence, test);
+    }
+
+    /** The sentence, which a promise calls on, stands in that part of the document, and the test, its own one, holds it. */
+    static void holds(int promise, String part, String sentence, Runnable test) {
+        Hall.about("promise " + promise + ", " + part + " \"" + sentence + "\": ");
         Hall.due("the document says so, which", wordsOf(part).contains(plain(sentence)), true);
         Hall.due("held once alone, which", HELD.add(part + sentence), true);
         int before = Hall.looked();

@@ -28,7 +28,7 @@ final class EdgesOfAhead {
     }
 
     private static void ahead() {
-        Edge.holds("Promise 15", "AHEAD (n 0 .. 200), what 0 WARM of a ROOM, 1 PAID, 2 CROSS, 3 TURNS", () -> {
+        Edge.holds(15, "AHEAD (n 0 .. 200), what 0 WARM of a ROOM, 1 PAID, 2 CROSS, 3 TURNS", () -> {
             KnobHall hall = Hall.of(RISING + "price 2;law turn 1;law cross 3;");
             hall.go(1);
             // HOUR 1 now: 101 is below 210 till 210; b passes in 1, 25 and so on, a in 24, 48 and so on.
@@ -46,7 +46,7 @@ final class EdgesOfAhead {
             Hall.due("TURNS more in 200", hall.ahead(200, 3, 0), 9);
             asked("ahead(200, 2, 0)", other -> other.ahead(200, 2, 0));
         });
-        Edge.holds("Promise 15", "(the ROOM isn't looked at of 1 .. 3).", () -> {
+        Edge.holds(15, "(the ROOM isn't looked at of 1 .. 3).", () -> {
             KnobHall hall = Hall.of(RISING + "law cross 3;");
             int[] rooms = {1, 2, -1, Integer.MIN_VALUE, Integer.MAX_VALUE};
             for (int what = 1; what <= 3; what++) {
@@ -57,7 +57,7 @@ final class EdgesOfAhead {
             }
             Hall.due("CROSS", hall.ahead(9, 2, -1), 54);
         });
-        Edge.holds("Promise 15", "NONE: no such ones.", () -> {
+        Edge.holds(15, "NONE: no such ones.", () -> {
             KnobHall hall = Hall.of(RISING);
             for (int what = 0; what <= 3; what++) {
                 Hall.due("ahead(201, " + what + ", 0)", hall.ahead(201, what, 0), -1);
@@ -76,7 +76,7 @@ final class EdgesOfAhead {
     }
 
     private static void soon() {
-        Edge.holds("==== 3.", "in how many HOURS, 200 at most, it is so WARM at least, if the knob were SET so and nobody turned it (0: it is now).", () -> {
+        Edge.holds(16, "==== 3.", "in how many HOURS, 200 at most, it is so WARM at least, if the knob were SET so and nobody turned it (0: it is now).", () -> {
             KnobHall hall = Hall.of(RISING + "law turn 9;");
             Hall.due("99", hall.soon(0, 99, 5), 0);
             Hall.due("100, now", hall.soon(0, 100, 5), 0);
@@ -90,7 +90,7 @@ final class EdgesOfAhead {
             Hall.due("by 30, four HOURS", stove.soon(0, 300, 30), 4);
             Hall.due("more there isn't", stove.soon(0, 301, 30), -2);
         });
-        Edge.holds("Promise 16", "SOON (tenths 0 .. 600, SET 5 .. 30); -2: not by then; NONE: no such ones.", () -> {
+        Edge.holds(16, "SOON (tenths 0 .. 600, SET 5 .. 30); -2: not by then; NONE: no such ones.", () -> {
             KnobHall hall = Hall.of("room h 400 0 0;room s 0 9 0;law lose 0 - 200*(leak = 0);");
             Hall.due("tenths 600", hall.soon(0, 600, 5), 1);
             Hall.due("tenths 601", hall.soon(0, 601, 5), -1);
@@ -116,7 +116,7 @@ final class EdgesOfAhead {
     private static void quicker() {
         // By 5 .. 9 a tenth an HOUR, by 10 .. 14 two and so on.
         String house = "room h 100 0 0;person a h 0 0 0;law turn 9;law lose 0 - set/50;";
-        Edge.holds("==== 3.", "whether it is SOON by the second one earlier than by the first one (one that is not by 200 is later than all).", () -> {
+        Edge.holds(17, "==== 3.", "whether it is SOON by the second one earlier than by the first one (one that is not by 200 is later than all).", () -> {
             KnobHall hall = Hall.of(house);
             Hall.due("200 and 100 HOURS", hall.quicker(0, 300, 5, 10), 1);
             Hall.due("100 and 200", hall.quicker(0, 300, 10, 5), 0);
@@ -133,7 +133,7 @@ final class EdgesOfAhead {
             Hall.due("an HOUR less", hall.quicker(0, 102, 5, 10), 1);
             Hall.due("one HOUR both", hall.quicker(0, 101, 5, 10), 0);
         });
-        Edge.holds("Promise 17", "QUICKER (1, 0); NONE: no such ones.", () -> {
+        Edge.holds(17, "QUICKER (1, 0); NONE: no such ones.", () -> {
             KnobHall hall = Hall.of(house);
             Hall.due("SETS 5 and 30", hall.quicker(0, 300, 5, 30), 1);
             Hall.due("SETS 30 and 5", hall.quicker(0, 300, 30, 5), 0);
@@ -158,7 +158,7 @@ final class EdgesOfAhead {
     }
 
     private static void swings() {
-        Edge.holds("==== 3.", "how often SET is turned (so that it is another one) the other way than the last time in these.", () -> {
+        Edge.holds(23, "==== 3.", "how often SET is turned (so that it is another one) the other way than the last time in these.", () -> {
             KnobHall hall = Hall.of(TO_AND_FRO);
             Hall.due("up", hall.swings(1), 0);
             Hall.due("up, down", hall.swings(2), 1);
@@ -173,7 +173,7 @@ final class EdgesOfAhead {
             hall = Hall.of("room h 100 0 0;person a h 0 0 0;person b h 10 0 1;person c h 0 0 2;person d h 20 0 3;");
             Hall.due("down, nothing, down, up", hall.swings(4), 1);
         });
-        Edge.holds("Promise 23", "SWINGS (n 1 .. 200); NONE: no such n.", () -> {
+        Edge.holds(23, "SWINGS (n 1 .. 200); NONE: no such n.", () -> {
             KnobHall hall = Hall.of(TO_AND_FRO);
             Hall.due("swings(1)", hall.swings(1), 0);
             Hall.due("swings(193), up in HOUR 192", hall.swings(193), 16);
@@ -195,7 +195,7 @@ final class EdgesOfAhead {
     }
 
     private static void learn() {
-        Edge.holds("==== 3.", "LEARN: the mean of the SETS to which people turned the knob (so that it was another one) at an HOUR of the day so far, cut.", () -> {
+        Edge.holds(25, "==== 3.", "LEARN: the mean of the SETS to which people turned the knob (so that it was another one) at an HOUR of the day so far, cut.", () -> {
             KnobHall hall = Hall.of("room h 100 0 0;person a h 40 0 0;person b h 40 0 0;knob 27 h;");
             hall.go(1);
             Hall.due("28 and 29, cut", hall.learn(0), 28);
@@ -211,7 +211,7 @@ final class EdgesOfAhead {
             hall.go(1);
             Hall.due("5 once", hall.learn(0), 5);
         });
-        Edge.holds("Promise 25", "LEARN (an HOUR 0 .. 23); -2: it never was; NONE: no such one.", () -> {
+        Edge.holds(25, "LEARN (an HOUR 0 .. 23); -2: it never was; NONE: no such one.", () -> {
             KnobHall hall = Hall.of("room h 100 0 0;person a h 20 0 0;person b h 20 0 23;");
             for (int hour = 0; hour < 24; hour++) {
                 Hall.due("learn(" + hour + ")", hall.learn(hour), -2);
@@ -234,7 +234,7 @@ final class EdgesOfAhead {
     }
 
     private static void turnsOf() {
-        Edge.holds("Promise 30", "How often a PERSON turned the knob (so that it was another SET) so far (n 0), or will in n HOURS (1 .. 200) as it goes; NONE: no such ones.", () -> {
+        Edge.holds(30, "How often a PERSON turned the knob (so that it was another SET) so far (n 0), or will in n HOURS (1 .. 200) as it goes; NONE: no such ones.", () -> {
             KnobHall hall = Hall.of(TO_AND_FRO + "knob 29 h;");
             Hall.due("so far", hall.turnsOf(0, 0), 0);
             Hall.due("in 1", hall.turnsOf(0, 1), 1);
@@ -264,7 +264,7 @@ final class EdgesOfAhead {
     }
 
     private static void apart() {
-        Edge.holds("Promise 33", "The HOUR from now on (0: as it is now), n 0 .. 200 at most, behind which as it goes the warmest ROOM is farthest from the coldest one, the first of several (what 0), how far (1).", () -> {
+        Edge.holds(33, "The HOUR from now on (0: as it is now), n 0 .. 200 at most, behind which as it goes the warmest ROOM is farthest from the coldest one, the first of several (what 0), how far (1).", () -> {
             KnobHall hall = Hall.of(RISING);
             hall.go(3);
             Hall.due("now", hall.apart(0, 0), 0);
@@ -285,7 +285,7 @@ final class EdgesOfAhead {
             Hall.due("no room", new KnobHall().apart(200, 0), 0);
             Hall.due("how far, no room", new KnobHall().apart(200, 1), 0);
         });
-        Edge.holds("Promise 33", "NONE: no such ones.", () -> {
+        Edge.holds(33, "NONE: no such ones.", () -> {
             KnobHall hall = Hall.of(RISING);
             Hall.due("apart(201, 0)", hall.apart(201, 0), -1);
             Hall.due("apart(201, 1)", hall.apart(201, 1), -1);
@@ -301,7 +301,7 @@ final class EdgesOfAhead {
     }
 
     private static void feels() {
-        Edge.holds("Promise 34", "In how many HOURS, n 1 .. 99 at most, a PERSON FEELS ten times WANTS at least as it goes (0: now); -2: not by then; NONE: no such ones.", () -> {
+        Edge.holds(34, "In how many HOURS, n 1 .. 99 at most, a PERSON FEELS ten times WANTS at least as it goes (0: now); -2: not by then; NONE: no such ones.", () -> {
             // 100 and a tenth an HOUR: a wants 120, b sits where it stays 50.
             KnobHall hall = Hall.of(RISING);
             Hall.due("in 20 of 20", hall.feels(0, 20), 20);

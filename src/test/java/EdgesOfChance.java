@@ -44,7 +44,7 @@ final class EdgesOfChance {
     }
 
     private static void outs() {
-        Edge.holds("==== 3.", "By chance: OUT is more by a number modulo 101 less 50 (0 .. 400), one for each HOUR.", () -> {
+        Edge.holds(39, "==== 3.", "By chance: OUT is more by a number modulo 101 less 50 (0 .. 400), one for each HOUR.", () -> {
             int[] told = {0, 49, 50, 51, 200, 349, 350, 351, 400};
             boolean least = false;
             boolean most = false;
@@ -76,7 +76,7 @@ final class EdgesOfChance {
     }
 
     private static void numbers() {
-        Edge.holds("==== 3.", "Numbers are the last one (at first the seed) times 1103515245 and 12345, without what is above 31 bits, by 65536.", () -> {
+        Edge.holds(39, "==== 3.", "Numbers are the last one (at first the seed) times 1103515245 and 12345, without what is above 31 bits, by 65536.", () -> {
             KnobHall hall = Hall.of("out 200;" + OUTSIDE);
             int[] seeds = {0, 1, 2, 65535, 65536, 1073741823, 1073741824, 2147483646, 2147483647};
             int[] hours = {1, 2, 98, 99};
@@ -92,7 +92,7 @@ final class EdgesOfChance {
     }
 
     private static void chance() {
-        Edge.holds("Promise 39", "(numbers from a seed 0 .. 2147483647 on, one behind another; n 1 .. 99 HOURS from now) a ROOM is so WARM 0 .. 600 at least then; NONE: no such ones.", () -> {
+        Edge.holds(39, "(numbers from a seed 0 .. 2147483647 on, one behind another; n 1 .. 99 HOURS from now) a ROOM is so WARM 0 .. 600 at least then; NONE: no such ones.", () -> {
             KnobHall hall = Hall.of("room h 400 0 0;room s 0 9 0;knob 5 h;law lose 0 - 200*(leak = 0);");
             Hall.due("seed 0", hall.chance(0, 1, 0, 600), 10);
             Hall.due("the greatest seed", hall.chance(2147483647, 1, 0, 600), 10);
@@ -124,7 +124,7 @@ final class EdgesOfChance {
     }
 
     private static void asItGoes() {
-        Edge.holds("==== 2.", "AS IT GOES: by OUT as told.", () -> {
+        Edge.holds(15, "==== 2.", "AS IT GOES: by OUT as told.", () -> {
             KnobHall hall = Hall.of("out 200;" + OUTSIDE);
             hall.chance(7, 9, 0, 200);
             Hall.due("ahead() behind chance()", hall.ahead(1, 0, 0), 300);
@@ -132,13 +132,13 @@ final class EdgesOfChance {
             hall.go(1);
             Hall.due("an HOUR behind it", hall.room(0, 0), 300);
         });
-        Edge.holds("==== 3.", "4 nothing is lost (the NAME leak stays).", () -> {
+        Edge.holds(40, "==== 3.", "4 nothing is lost (the NAME leak stays).", () -> {
             KnobHall hall = Hall.of("room h 100 50 0;person a h 20 0 9;out 0;law cross leak + felt;");
             Hall.due("nothing is lost", hall.tried(4, 0, 2), 300);
             hall = Hall.of("room h 100 50 0;person a h 20 0 9;law lose 100;law cross leak + felt;");
             Hall.due("nor by a law", hall.tried(4, 0, 2), 300);
         });
-        Edge.holds("==== 3.", "0 nobody turns, 1 no SUN", () -> {
+        Edge.holds(40, "==== 3.", "0 nobody turns, 1 no SUN", () -> {
             KnobHall hall = Hall.of("room h 100 0 0;person a h 20 0 0;sun h 0 30;law turn 1;law cross felt + set;knob 5 h;");
             // 130 from HOUR 0 on, SET 6.
             Hall.due("as it goes", hall.ahead(2, 2, 0), 2 * (130 + 60));
@@ -146,13 +146,13 @@ final class EdgesOfChance {
             Hall.due("no SUN", hall.tried(1, 0, 2), 2 * (100 + 60));
             Hall.due("as it goes still", hall.ahead(2, 2, 0), 2 * (130 + 60));
         });
-        Edge.holds("==== 3.", "3 nobody feels LATE", () -> {
+        Edge.holds(40, "==== 3.", "3 nobody feels LATE", () -> {
             KnobHall hall = Hall.of("room h 100 0 10;person a h 20 5 9;person b h 20 1 9;knob 30 h;law cross felt;");
             Hall.due("as it goes", hall.ahead(2, 2, 0), 100 + 100 + 100 + 110);
             Hall.due("nobody feels LATE", hall.tried(3, 0, 2), 110 + 110 + 120 + 120);
             Hall.due("as it goes still", hall.ahead(2, 2, 0), 410);
         });
-        Edge.holds("==== 3.", "2 PERSON i isn't there", () -> {
+        Edge.holds(40, "==== 3.", "2 PERSON i isn't there", () -> {
             KnobHall hall = Hall.of("room h 100 0 0;person a h 20 0 0;person b h 20 0 1;law turn 1;law cross wish/100 + set/10;");
             // a turns it to 21 in HOUR 0, b to 22 in HOUR 1, each is CROSS by 2 and SET.
             Hall.due("as it goes", hall.ahead(2, 2, 0), 2 * (23 + 24));
@@ -164,7 +164,7 @@ final class EdgesOfChance {
     }
 
     private static void tried() {
-        Edge.holds("Promise 40", "TRIED (n 0 .. 99); NONE: no such ones (i 0 of all but 2).", () -> {
+        Edge.holds(40, "TRIED (n 0 .. 99); NONE: no such ones (i 0 of all but 2).", () -> {
             KnobHall hall = Hall.of("room h 100 0 0;person a h 20 0 0;person b h 20 0 0;law cross 7;");
             for (int what = 0; what <= 4; what++) {
                 int all = what == 2 ? 7 : 14;

@@ -31,7 +31,7 @@ final class EdgesOfChoice {
     }
 
     private static void best() {
-        Edge.holds("==== 3.", "the SET 5 .. 30, nobody turning it, by which all are least CROSS more, of several the first.", () -> {
+        Edge.holds(18, "==== 3.", "the SET 5 .. 30, nobody turning it, by which all are least CROSS more, of several the first.", () -> {
             best("set", 5, 100);
             best("999 - set", 30, 1398);
             best("(set < 290)*400 + set", 29, 580);
@@ -44,7 +44,7 @@ final class EdgesOfChoice {
             hall.go(9);
             Hall.due("more, not so far", hall.best(1, 1), 50);
         });
-        Edge.holds("Promise 18", "BEST (n 1 .. 99), what 0: SET, 1: CROSS more by it. NONE: no such ones.", () -> {
+        Edge.holds(18, "BEST (n 1 .. 99), what 0: SET, 1: CROSS more by it. NONE: no such ones.", () -> {
             KnobHall hall = Hall.of(STILL + "law cross 300 - set + 1;");
             Hall.due("best(1, 0)", hall.best(1, 0), 30);
             Hall.due("best(1, 1)", hall.best(1, 1), 1);
@@ -68,7 +68,7 @@ final class EdgesOfChoice {
     }
 
     private static void cheap() {
-        Edge.holds("==== 3.", "the SET by which least is PAID, all being CROSS by no more than the bound more, nobody turning; of several the first.", () -> {
+        Edge.holds(19, "==== 3.", "the SET by which least is PAID, all being CROSS by no more than the bound more, nobody turning; of several the first.", () -> {
             // In two HOURS CROSS by 20 for each degree below 30; no fire by 5 .. 10.
             KnobHall hall = Hall.of(STILL + "law cross 300 - set;");
             Hall.due("bound 500, all of them", hall.cheap(2, 500), 5);
@@ -88,7 +88,7 @@ final class EdgesOfChoice {
             Hall.due("least is PAID by 25", hall.cheap(2, 0), 25);
             Hall.due("by 5 nothing", hall.cheap(2, 2), 5);
         });
-        Edge.holds("Promise 19", "CHEAP (n 1 .. 99, a bound 0 .. 99999): SET; -2: by none; NONE: no such ones.", () -> {
+        Edge.holds(19, "CHEAP (n 1 .. 99, a bound 0 .. 99999): SET; -2: by none; NONE: no such ones.", () -> {
             // 441, 999 and 999 in each of 41 HOURS: 99999.
             String three = "room h 100 0 0;person a h 0 0 0;person b h 1 0 0;person c h 1 0 0;";
             KnobHall hall = Hall.of(three + "law cross 441 + 558*(wish > 0);");
@@ -116,7 +116,7 @@ final class EdgesOfChoice {
     private static void hears() {
         // By 20 it is ON where it is below 200; p in s is least CROSS by fire, q in h without.
         String rooms = "room h 200 0 50;room s 199 0 50;room t 199 0 50;";
-        Edge.holds("==== 3.", "the ROOM that the knob should hear so that all are least CROSS more, nobody turning it (CANDLE as it is), the first of several.", () -> {
+        Edge.holds(20, "==== 3.", "the ROOM that the knob should hear so that all are least CROSS more, nobody turning it (CANDLE as it is), the first of several.", () -> {
             Hall.due("fire is better: s, not t", Hall.of(rooms + "person p s 25 0 0;law turn 9;").hears(1), 1);
             Hall.due("no fire is better: h", Hall.of(rooms + "person p s 20 0 0;knob 20 t;").hears(1), 0);
             Hall.due("all alike", Hall.of(rooms).hears(1), 0);
@@ -130,7 +130,7 @@ final class EdgesOfChoice {
             Hall.due("the last one", Hall.of("room a 200 0 9;room b 200 0 9;room c 200 0 9;room d 200 0 9;room e 199 0 9;"
                 + "person p a 21 0 0;law cross 210 - felt;").hears(1), 4);
         });
-        Edge.holds("Promise 20", "HANG (n 1 .. 99): the ROOM; NONE: no such n, no ROOMS.", () -> {
+        Edge.holds(20, "HANG (n 1 .. 99): the ROOM; NONE: no such n, no ROOMS.", () -> {
             KnobHall hall = Hall.of(rooms + "person p s 25 0 0;");
             Hall.due("n 1", hall.hears(1), 1);
             Hall.due("n 99", hall.hears(99) >= 0, true);
@@ -150,7 +150,7 @@ final class EdgesOfChoice {
     private static void onAgain() {
         // By 5 never ON, by 30 a tenth an HOUR.
         String house = "room h 100 0 1;room s 100 0 0;person a h 0 0 0;law turn 9;";
-        Edge.holds("==== 3.", "at which HOUR from now on (0 up to n) SET must be 30 at the latest, so that behind n HOURS the ROOM is so WARM at least, nobody turning.", () -> {
+        Edge.holds(21, "==== 3.", "at which HOUR from now on (0 up to n) SET must be 30 at the latest, so that behind n HOURS the ROOM is so WARM at least, nobody turning.", () -> {
             KnobHall hall = Hall.of(house);
             Hall.due("100: 30 isn't needed", hall.onAgain(0, 100, 10), 10);
             Hall.due("101: the last HOUR", hall.onAgain(0, 101, 10), 9);
@@ -170,7 +170,7 @@ final class EdgesOfChoice {
             Hall.due("51: one HOUR of 30", hall.onAgain(0, 51, 9), 8);
             Hall.due("57: 30 from HOUR 2 on", hall.onAgain(0, 57, 9), 2);
         });
-        Edge.holds("Promise 21", "BACK (tenths 0 .. 600, n 0 .. 99); -2: by none; NONE: no such ones.", () -> {
+        Edge.holds(21, "BACK (tenths 0 .. 600, n 0 .. 99); -2: by none; NONE: no such ones.", () -> {
             KnobHall hall = Hall.of(house);
             Hall.due("n 99, 199", hall.onAgain(0, 199, 99), 0);
             Hall.due("n 99, 200", hall.onAgain(0, 200, 99), -2);
@@ -193,7 +193,7 @@ final class EdgesOfChoice {
     }
 
     private static void night() {
-        Edge.holds("==== 3.", "PAID more, if SET is 5 in HOURS 22, 23, 0 .. 5 of the day and else as now, less what is PAID more with SET as now through (nobody turning).", () -> {
+        Edge.holds(22, "==== 3.", "PAID more, if SET is 5 in HOURS 22, 23, 0 .. 5 of the day and else as now, less what is PAID more with SET as now through (nobody turning).", () -> {
             for (int hour = 0; hour < 24; hour++) {
                 // Cold in one HOUR of the day alone: ON in it by 20, not by 5.
                 int ahead = (hour + 23) % 24;
@@ -206,7 +206,7 @@ final class EdgesOfChoice {
                 Hall.due("SET 5 as now", hall.night(1), 0);
             }
         });
-        Edge.holds("==== 3.", "NIGHT for n DAYS (24 HOURS each, from now on):", () -> {
+        Edge.holds(22, "==== 3.", "NIGHT for n DAYS (24 HOURS each, from now on):", () -> {
             // Eight HOURS of 24, wherever they begin.
             KnobHall hall = Hall.of("room h 150 0 0;price 1;");
             for (int hour = 0; hour <= 24; hour++) {
@@ -215,7 +215,7 @@ final class EdgesOfChoice {
                 hall.go(1);
             }
         });
-        Edge.holds("Promise 22", "NIGHT (n 1 .. 7; it may be below 0); Integer.MIN_VALUE: no such n.", () -> {
+        Edge.holds(22, "NIGHT (n 1 .. 7; it may be below 0); Integer.MIN_VALUE: no such n.", () -> {
             KnobHall hall = Hall.of("room h 150 0 0;price 99;");
             Hall.due("night(1)", hall.night(1), -8 * 99);
             Hall.due("night(7)", hall.night(7), -56 * 99);
@@ -233,7 +233,7 @@ final class EdgesOfChoice {
     }
 
     private static void degree() {
-        Edge.holds("==== 3.", "what is PAID more by one degree more SET than by now's, nobody turning (30 at most: 0 there).", () -> {
+        Edge.holds(24, "==== 3.", "what is PAID more by one degree more SET than by now's, nobody turning (30 at most: 0 there).", () -> {
             KnobHall hall = Hall.of("room h 290 0 0;person a h 40 0 0;law turn 9;price 7;knob 28 h;");
             Hall.due("29: 290 isn't below 290", hall.degree(9), 0);
             hall.set(29);
@@ -245,7 +245,7 @@ final class EdgesOfChoice {
             hall = Hall.of("room h 50 0 0;price 7;knob 5 h;");
             Hall.due("at 5", hall.degree(9), 63);
         });
-        Edge.holds("Promise 24", "DEGREE (n 1 .. 99; 0, if it would be below 0); NONE: no such n.", () -> {
+        Edge.holds(24, "DEGREE (n 1 .. 99; 0, if it would be below 0); NONE: no such n.", () -> {
             KnobHall hall = Hall.of("room h 200 0 0;price 7;");
             Hall.due("degree(1)", hall.degree(1), 7);
             Hall.due("degree(99)", hall.degree(99), 693);
@@ -269,7 +269,7 @@ final class EdgesOfChoice {
     }
 
     private static void givesIn() {
-        Edge.holds("==== 3.", "GIVES IN: of two the one who loses least by SET of the other one's WANTS (CROSS more in 24 HOURS, nobody turning), the lesser number, if alike.", () -> {
+        Edge.holds(28, "==== 3.", "GIVES IN: of two the one who loses least by SET of the other one's WANTS (CROSS more in 24 HOURS, nobody turning), the lesser number, if alike.", () -> {
             // Each is CROSS by how far SET is from what one WANTS.
             String wants = "room h 100 0 0;person a h 10 0 0;person b h 20 0 0;person c h 12 0 0;law turn 9;";
             KnobHall hall = Hall.of(wants + "law cross (set - wish)*(set - wish)/100;");
@@ -292,7 +292,7 @@ final class EdgesOfChoice {
             hall = Hall.of(wants + "law cross (hour = 0)*(wish = 100) + (hour = 1)*(wish = 200);");
             Hall.due("the 25th doesn't", hall.givesIn(0, 1), 0);
         });
-        Edge.holds("Promise 28", "GIVES IN; NONE: no such ones, alike.", () -> {
+        Edge.holds(28, "GIVES IN; NONE: no such ones, alike.", () -> {
             KnobHall hall = Hall.of("room h 100 0 0;person a h 10 0 0;person b h 20 0 0;");
             Hall.due("givesIn(0, 1)", hall.givesIn(0, 1) >= 0, true);
             Hall.due("givesIn(0, 0)", hall.givesIn(0, 0), -1);
@@ -311,7 +311,7 @@ final class EdgesOfChoice {
     }
 
     private static void strip() {
-        Edge.holds("==== 3.", "what is PAID less, if LEAK of the ROOM is half of it, cut (0 at least; nobody turning).", () -> {
+        Edge.holds(31, "==== 3.", "what is PAID less, if LEAK of the ROOM is half of it, cut (0 at least; nobody turning).", () -> {
             // By 20 it is ON, as long as less than 200: it stays, if LEAK by half is 1, and gets warm by 0.
             String house = "room h 199 # 0;room s 100 9 0;person a h 40 0 0;law turn 9;price 1;law lose leak - 1;";
             Hall.due("half of 1 is 0", Hall.of(house.replace("#", "1")).strip(0, 9), 8);
@@ -326,7 +326,7 @@ final class EdgesOfChoice {
             Hall.due("without a law, half of 1", Hall.of("room h 200 1 0;out 0;price 1;").strip(0, 9), 8);
             Hall.due("more is PAID: 0", Hall.of("room h 199 3 0;price 1;law lose 1 - leak;").strip(0, 9), 0);
         });
-        Edge.holds("Promise 31", "STRIP (n 1 .. 99); NONE: no such ones.", () -> {
+        Edge.holds(31, "STRIP (n 1 .. 99); NONE: no such ones.", () -> {
             KnobHall hall = Hall.of("room h 200 1 0;room s 100 1 0;out 0;price 1;");
             Hall.due("n 1", hall.strip(0, 1), 0);
             Hall.due("n 2", hall.strip(0, 2), 1);

@@ -23,7 +23,7 @@ final class EdgesOfDoing {
     }
 
     private static void set() {
-        Edge.holds("Promise 10", "SET is so much 5 .. 30: true; false: no such one, it is so.", () -> {
+        Edge.holds(10, "SET is so much 5 .. 30: true; false: no such one, it is so.", () -> {
             KnobHall hall = Hall.of(HOUSE);
             refused("set(4)", hall.set(4));
             refused("set(31)", hall.set(31));
@@ -44,7 +44,7 @@ final class EdgesOfDoing {
     }
 
     private static void hang() {
-        Edge.holds("Promise 11", "The knob hears a ROOM from now on: true; false: no such one, it does.", () -> {
+        Edge.holds(11, "The knob hears a ROOM from now on: true; false: no such one, it does.", () -> {
             KnobHall hall = Hall.of(HOUSE);
             refused("hang(0), it does", hall.hang(0));
             refused("hang(3)", hall.hang(3));
@@ -62,7 +62,7 @@ final class EdgesOfDoing {
     }
 
     private static void candle() {
-        Edge.holds("Promise 12", "A CANDLE is under the knob from now on, or no more: true; false: it is so.", () -> {
+        Edge.holds(12, "A CANDLE is under the knob from now on, or no more: true; false: it is so.", () -> {
             KnobHall hall = new KnobHall();
             refused("none is", hall.candle(false));
             Hall.due("candle(true)", hall.candle(true), true);
@@ -76,7 +76,7 @@ final class EdgesOfDoing {
     }
 
     private static void jumper() {
-        Edge.holds("Promise 13", "A PERSON has a JUMPER from now on, or no more: true; false: no such one, it is so.", () -> {
+        Edge.holds(13, "A PERSON has a JUMPER from now on, or no more: true; false: no such one, it is so.", () -> {
             KnobHall hall = Hall.of(HOUSE);
             refused("none has", hall.jumper(1, false));
             Hall.due("jumper(1, true)", hall.jumper(1, true), true);
@@ -102,7 +102,7 @@ final class EdgesOfDoing {
     }
 
     private static void go() {
-        Edge.holds("Promise 14", "So many HOURS (0 .. 99) go by: which one it is;", () -> {
+        Edge.holds(14, "So many HOURS (0 .. 99) go by: which one it is;", () -> {
             KnobHall hall = Hall.of(HOUSE);
             Hall.due("go(0)", hall.go(0), 0);
             Hall.due("go(1)", hall.go(1), 1);
@@ -112,7 +112,7 @@ final class EdgesOfDoing {
             Edge.leaves("go(0)", Halls::rich, other -> Hall.due("go(0)", other.go(0), 5));
             Hall.due("of a new object", new KnobHall().go(99), 99);
         });
-        Edge.holds("Promise 14", "NONE, and none does: no such number, behind 9900.", () -> {
+        Edge.holds(14, "NONE, and none does: no such number, behind 9900.", () -> {
             int[] wrong = {-1, 100, 101, Integer.MIN_VALUE, Integer.MAX_VALUE};
             for (int n : wrong) {
                 Edge.leaves("go(" + n + ")", Halls::rich, other -> Hall.due("go(" + n + ")", other.go(n), -1));
@@ -135,7 +135,7 @@ final class EdgesOfDoing {
     }
 
     private static void undoable() {
-        Edge.holds("==== 4.", "can be undone, the latest first (20 at most), if no HOUR went by since.", () -> {
+        Edge.holds(41, "==== 4.", "can be undone, the latest first (20 at most), if no HOUR went by since.", () -> {
             for (int calls = 19; calls <= 22; calls++) {
                 KnobHall hall = Hall.of(HOUSE);
                 for (int i = 0; i < calls; i++) {
@@ -195,7 +195,7 @@ final class EdgesOfDoing {
     }
 
     private static void undo() {
-        Edge.holds("Promise 41", "The latest is undone: how many are left; NONE: none.", () -> {
+        Edge.holds(41, "The latest is undone: how many are left; NONE: none.", () -> {
             Hall.due("of a new object", new KnobHall().undo(), -1);
             KnobHall hall = Hall.of(HOUSE);
             Hall.due("of a new text", hall.undo(), -1);
@@ -228,7 +228,7 @@ final class EdgesOfDoing {
     }
 
     private static void keep() {
-        Edge.holds("Promise 42", "An IMAGE is kept (in place of one ahead): which HOUR it is.", () -> {
+        Edge.holds(42, "An IMAGE is kept (in place of one ahead): which HOUR it is.", () -> {
             KnobHall hall = Hall.of(HOUSE);
             Hall.due("in HOUR 0", hall.keep(), 0);
             hall.go(2);
@@ -245,7 +245,7 @@ final class EdgesOfDoing {
     }
 
     private static void back() {
-        Edge.holds("Promise 43", "(nothing to undo then): which HOUR it is; NONE: there is none.", () -> {
+        Edge.holds(43, "(nothing to undo then): which HOUR it is; NONE: there is none.", () -> {
             Hall.due("of a new object", new KnobHall().back(), -1);
             Edge.leaves("back() without", () -> Hall.of(HOUSE), other -> Hall.due("back()", other.back(), -1));
             KnobHall hall = Hall.of(HOUSE);
@@ -266,7 +266,7 @@ final class EdgesOfDoing {
             hall.text(0);
             Hall.due("behind a text", hall.back(), -1);
         });
-        Edge.holds("Promise 43", "All (but WEAR) is as in the IMAGE", () -> {
+        Edge.holds(43, "All (but WEAR) is as in the IMAGE", () -> {
             KnobHall hall = Hall.of(HOUSE);
             hall.wear(1, 5, true);
             hall.keep();
@@ -292,7 +292,7 @@ final class EdgesOfDoing {
     }
 
     private static void images() {
-        Edge.holds("==== 4.", "An IMAGE keeps all but WEAR.", () -> {
+        Edge.holds(42, "==== 4.", "An IMAGE keeps all but WEAR.", () -> {
             KnobHall hall = Hall.of(HOUSE);
             hall.wear(1, 30, true);
             hall.keep();

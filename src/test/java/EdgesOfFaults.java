@@ -14,7 +14,7 @@ final class EdgesOfFaults {
     }
 
     private static void theFirst() {
-        Edge.holds("Terms", "FAULTS, the first along the text (of one place the least), with its place:", () -> {
+        Edge.holds(3, "Terms", "FAULTS, the first along the text (of one place the least), with its place:", () -> {
             Hall.dueFault("out 401;#", 2, 4);
             Hall.dueFault("#out 401;", 1, 0);
             Hall.dueFault("price 1;price 100;out 401;", 3, 8);
@@ -44,7 +44,7 @@ final class EdgesOfFaults {
     }
 
     private static void noToken() {
-        Edge.holds("Terms", "1 a TOKEN that is none (a word of more than 6 letters that isn't of the language, too) or can't stand there", () -> {
+        Edge.holds(3, "Terms", "1 a TOKEN that is none (a word of more than 6 letters that isn't of the language, too) or can't stand there", () -> {
             Hall.dueFault("abcdefg", 1, 0);
             Hall.dueFault("persons r 1 1 1;", 1, 0);
             Hall.dueFault("out abcdefgh;", 1, 4);
@@ -57,7 +57,7 @@ final class EdgesOfFaults {
             Hall.dueFault("" + (char) 255, 1, 0);
             Hall.dueFault((char) ('o' + 128) + "ut 1;", 1, 0);
         });
-        Edge.holds("Terms", "(the length, if more must come).", () -> {
+        Edge.holds(3, "Terms", "(the length, if more must come).", () -> {
             String[] texts = {"r", "room", "room r", "room r 1", "room r 1 1", "room r 1 1 1", "out 1;law", "law lose",
                 "law lose 1", "law lose 1+", "law lose (", "law lose (1", "law lose (1)", "law lose not", "law lose 1 <"};
             for (String text : texts) {
@@ -76,7 +76,7 @@ final class EdgesOfFaults {
     }
 
     private static void tooMuch() {
-        Edge.holds("Terms", "2 too much (at it): a number beyond what is said", () -> {
+        Edge.holds(3, "Terms", "2 too much (at it): a number beyond what is said", () -> {
             String[] huge = {"1000000", "9999999", "2147483647", "2147483648", "2147483648000", "4294967296", "4294967300",
                 "9223372036854775808", "18446744073709551616", "18446744073709551620", "9".repeat(60), "1" + "0".repeat(64)};
             for (String number : huge) {
@@ -89,7 +89,7 @@ final class EdgesOfFaults {
             Hall.dueFault(ROOM + "knob 4 r;", 2, 18);
             Hall.dueFault(ROOM + "knob 0 r;", 2, 18);
         });
-        Edge.holds("Terms", "a sixth room and so on (at the word of the LINE)", () -> {
+        Edge.holds(3, "Terms", "a sixth room and so on (at the word of the LINE)", () -> {
             String rooms = "room a 1 1 1;room b 1 1 1;room c 1 1 1;room d 1 1 1;room e 1 1 1;";
             String people = "person a a 1 1 1;person b a 1 1 1;person c a 1 1 1;person d a 1 1 1;person e a 1 1 1;";
             Hall.due("five of each", Hall.tell(new KnobHall(), rooms + people), 10);
@@ -107,7 +107,7 @@ final class EdgesOfFaults {
             Hall.dueFault("out 1;".repeat(8) + "out 1;", 2, 48);
             Hall.dueFault("out 1;".repeat(8) + "out", 2, 48);
         });
-        Edge.holds("Terms", "a ninth '(' open", () -> {
+        Edge.holds(3, "Terms", "a ninth '(' open", () -> {
             Hall.due("eight", Hall.tell(new KnobHall(), "law lose " + "(".repeat(8) + "1" + ")".repeat(8) + ";"), 1);
             Hall.dueFault("law lose " + "(".repeat(9) + "1" + ")".repeat(9) + ";", 2, 17);
             Hall.dueFault("law lose 1+" + "(1+".repeat(8) + "(1", 2, 35);
@@ -144,7 +144,7 @@ final class EdgesOfFaults {
     }
 
     private static void knots() {
-        Edge.holds("Terms", "a 65th KNOT of all E (N, NAMES, signs, not, and, or: one each)", () -> {
+        Edge.holds(3, "Terms", "a 65th KNOT of all E (N, NAMES, signs, not, and, or: one each)", () -> {
             knots("law lose not 1" + "+1".repeat(31) + ";", 1);
             Hall.dueFault("law lose 1" + "+1".repeat(32) + ";", 2, 73);
             Hall.dueFault("law lose not 1" + "+1".repeat(32) + ";", 2, 76);
@@ -182,7 +182,7 @@ final class EdgesOfFaults {
     }
 
     private static void toldAlready() {
-        Edge.holds("Terms", "3 told already: a name of its kind (at W), knob, price (at the word), a law of its LAW (at LAW).", () -> {
+        Edge.holds(3, "Terms", "3 told already: a name of its kind (at W), knob, price (at the word), a law of its LAW (at LAW).", () -> {
             Hall.dueFault(ROOM + "room s 1 1 1;room r 1 1 1;", 3, 31);
             Hall.dueFault(ROOM + "room s 1 1 1;room s", 3, 31);
             Hall.dueFault(ROOM + "person a r 1 1 1;person b r 1 1 1;person a r 1 1 1;", 3, 54);
@@ -209,7 +209,7 @@ final class EdgesOfFaults {
     }
 
     private static void notTold() {
-        Edge.holds("Terms", "4 a ROOM that isn't told ahead (at W).", () -> {
+        Edge.holds(3, "Terms", "4 a ROOM that isn't told ahead (at W).", () -> {
             Hall.dueFault("person a r 1 1 1;" + ROOM, 4, 9);
             Hall.dueFault("sun r 1 1;" + ROOM, 4, 4);
             Hall.dueFault("knob 9 r;" + ROOM, 4, 7);

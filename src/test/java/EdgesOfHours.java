@@ -20,7 +20,7 @@ final class EdgesOfHours {
     }
 
     private static void hourOfTheDay() {
-        Edge.holds(PART, "An HOUR t (0 up; of the day: modulo 24)", () -> {
+        Edge.holds(14, PART, "An HOUR t (0 up; of the day: modulo 24)", () -> {
             KnobHall hall = Hall.of("room h 0 0 0;sun h 0 5;sun h 23 7;person a h 0 0 0;person b h 0 0 23;knob 5 h;"
                 + "law lose hour - hour;law turn 1;law cross hour;");
             Hall.due("HOUR 0", hall.count(3), 0);
@@ -52,7 +52,7 @@ final class EdgesOfHours {
     }
 
     private static void stove() {
-        Edge.holds(PART, "the stove is ON, if what the knob hears is below ten times SET (without ROOMS: it isn't)", () -> {
+        Edge.holds(14, PART, "the stove is ON, if what the knob hears is below ten times SET (without ROOMS: it isn't)", () -> {
             onBy("room h 199 0 40;", true);
             onBy("room h 200 0 40;", false);
             onBy("room h 201 0 40;", false);
@@ -71,7 +71,7 @@ final class EdgesOfHours {
             none.candle(true);
             Hall.due("by SET 30", none.count(7), 0);
         });
-        Edge.holds(PART, "the ROOM's WARM and 50 for a CANDLE under it.", () -> {
+        Edge.holds(14, PART, "the ROOM's WARM and 50 for a CANDLE under it.", () -> {
             KnobHall hall = Hall.of("room h 149 0 40;room s 150 0 40;");
             hall.candle(true);
             Hall.due("149 and 50", hall.count(7), 1);
@@ -83,7 +83,7 @@ final class EdgesOfHours {
             Hall.due("150 alone", hall.count(7), 1);
             Hall.due("WARM is without", hall.room(1, 0), 150);
         });
-        Edge.holds(PART, "If it is ON, price is PAID, one HOUR more of fire.", () -> {
+        Edge.holds(14, PART, "If it is ON, price is PAID, one HOUR more of fire.", () -> {
             KnobHall hall = Hall.of("room h 199 0 1;price 99;");
             hall.go(1);
             Hall.due("ON: PAID", hall.count(8), 99);
@@ -106,7 +106,7 @@ final class EdgesOfHours {
     }
 
     private static void losing() {
-        Edge.holds(PART, "less by E of lose (-400 .. 400;", () -> {
+        Edge.holds(14, PART, "less by E of lose (-400 .. 400;", () -> {
             warm("room h 400 0 0;sun h 0 99;law lose 399;", 1, 100);
             warm("room h 400 0 0;sun h 0 99;law lose 400;", 1, 99);
             warm("room h 400 0 0;sun h 0 99;law lose 401;", 1, 99);
@@ -117,7 +117,7 @@ final class EdgesOfHours {
             warm("room h 100 0 0;knob 5 h;law lose 0-9999*9999;", 1, 500);
             warm("room h 100 0 0;knob 5 h;law lose 0;", 1, 100);
         });
-        Edge.holds(PART, "how much WARM is above OUT times LEAK by 100, cut, -400 .. 400 too, without, with an ERROR)", () -> {
+        Edge.holds(14, PART, "how much WARM is above OUT times LEAK by 100, cut, -400 .. 400 too, without, with an ERROR)", () -> {
             String[] laws = {"", "law lose 1/0;", "law lose 9999*9999*9999*2;"};
             for (String law : laws) {
                 warm("room h 201 50 0;out 100;knob 5 h;" + law, 1, 151);
@@ -139,7 +139,7 @@ final class EdgesOfHours {
     }
 
     private static void coldestAndWarmest() {
-        Edge.holds(PART, "0 .. 600 at most.", () -> {
+        Edge.holds(14, PART, "0 .. 600 at most.", () -> {
             warm("room h 100 0 0;knob 5 h;law lose 99;", 1, 1);
             warm("room h 100 0 0;knob 5 h;law lose 100;", 1, 0);
             warm("room h 100 0 0;knob 5 h;law lose 101;", 1, 0);
@@ -159,7 +159,7 @@ final class EdgesOfHours {
     }
 
     private static void late() {
-        Edge.holds(PART, "FEELS the WARM of its ROOM as it was LATE HOURS ago (behind (2) of that HOUR; at first: as told), and 20 for a JUMPER;", () -> {
+        Edge.holds(14, PART, "FEELS the WARM of its ROOM as it was LATE HOURS ago (behind (2) of that HOUR; at first: as told), and 20 for a JUMPER;", () -> {
             for (int late = 0; late <= 5; late++) {
                 KnobHall hall = Hall.of("room s 7 0 0;room h 100 0 10;person a h 20 " + late + " 9;knob 30 h;law cross felt;");
                 int cross = 0;
@@ -190,14 +190,14 @@ final class EdgesOfHours {
     }
 
     private static void turning() {
-        Edge.holds(PART, "turns the knob by E of turn (-9 .. 9;", () -> {
+        Edge.holds(14, PART, "turns the knob by E of turn (-9 .. 9;", () -> {
             int[] by = {0, 1, 8, 9, 10, 9999};
             for (int degrees : by) {
                 setBehind("room h 100 0 0;person a h 20 0 0;knob 15 h;law turn " + degrees + ";", 15 + Math.min(9, degrees));
                 setBehind("room h 100 0 0;person a h 20 0 0;knob 15 h;law turn 0-" + degrees + ";", 15 - Math.min(9, degrees));
             }
         });
-        Edge.holds(PART, "1, if FELT is below ten times WANTS less 5, -1, if it is above ten times WANTS and 5, else 0, without, with an ERROR)", () -> {
+        Edge.holds(14, PART, "1, if FELT is below ten times WANTS less 5, -1, if it is above ten times WANTS and 5, else 0, without, with an ERROR)", () -> {
             String[] laws = {"", "law turn 1/0;", "law turn 9999*9999*9999*2;"};
             for (String law : laws) {
                 setBehind("room h 194 0 0;person a h 20 0 0;" + law, 21);
@@ -223,7 +223,7 @@ final class EdgesOfHours {
     }
 
     private static void another() {
-        Edge.holds(PART, "5 .. 30: TURNS are more by 1, if it is another SET then.", () -> {
+        Edge.holds(14, PART, "5 .. 30: TURNS are more by 1, if it is another SET then.", () -> {
             setBehind("room h 0 0 0;person a h 20 0 0;knob 29 h;law turn 1;", 30);
             setBehind("room h 0 0 0;person a h 20 0 0;knob 29 h;law turn 2;", 30);
             setBehind("room h 0 0 0;person a h 20 0 0;knob 30 h;law turn 1;", 30);
@@ -251,7 +251,7 @@ final class EdgesOfHours {
     }
 
     private static void crossness() {
-        Edge.holds(PART, "(4) each PERSON is CROSS by E of cross more (0 .. 999;", () -> {
+        Edge.holds(14, PART, "(4) each PERSON is CROSS by E of cross more (0 .. 999;", () -> {
             int[] by = {0, 1, 998, 999, 1000, 9999};
             for (int more : by) {
                 cross("room h 100 0 0;person a h 20 0 9;law cross " + more + ";", Math.min(999, more));
@@ -260,7 +260,7 @@ final class EdgesOfHours {
             cross("room h 100 0 0;person a h 20 0 9;law cross 0-9999*9999;", 0);
             cross("room h 100 0 0;person a h 20 0 9;law cross 9999*9999*9999;", 999);
         });
-        Edge.holds(PART, "how far FELT is from ten times WANTS, by 10, cut, without, with an ERROR).", () -> {
+        Edge.holds(14, PART, "how far FELT is from ten times WANTS, by 10, cut, without, with an ERROR).", () -> {
             String[] laws = {"", "law cross 1/0;", "law cross 9999*9999*9999*2;"};
             int[] warm = {200, 191, 190, 181, 180, 209, 210, 219, 220, 0, 400};
             int[] due = {0, 0, 1, 1, 2, 0, 1, 1, 2, 20, 20};
@@ -283,7 +283,7 @@ final class EdgesOfHours {
     }
 
     private static void names() {
-        Edge.holds(PART, "felt: what the PERSON FEELS (of lose 0); wish: ten times WANTS (of lose 0);", () -> {
+        Edge.holds(9, PART, "felt: what the PERSON FEELS (of lose 0); wish: ten times WANTS (of lose 0);", () -> {
             value("felt", 0);
             value("wish", 0);
             KnobHall hall = Hall.of("room h 180 7 20;person a h 0 0 5;person b h 40 0 5;law lose felt + wish;law turn wish;law cross felt;");
@@ -298,7 +298,7 @@ final class EdgesOfHours {
     }
 
     private static void truths() {
-        Edge.holds(PART, "comparisons, and, or, not are 1 or 0 (what isn't 0 is as 1, both sides are worked out)", () -> {
+        Edge.holds(9, PART, "comparisons, and, or, not are 1 or 0 (what isn't 0 is as 1, both sides are worked out)", () -> {
             String[] signs = {"<", "<=", "=", "<>", ">=", ">"};
             // Of 1 and 2, 2 and 2, 3 and 2.
             int[][] due = {{1, 0, 0}, {1, 1, 0}, {0, 1, 0}, {1, 0, 1}, {0, 1, 1}, {0, 0, 1}};
@@ -332,7 +332,7 @@ final class EdgesOfHours {
             value("not (1/0)", ERROR);
             value("1/0 = 1/0", ERROR);
         });
-        Edge.holds(PART, "/ is cut towards 0;", () -> {
+        Edge.holds(9, PART, "/ is cut towards 0;", () -> {
             value("7/2", 3);
             value("(0-7)/2", -3);
             value("7/(0-2)", -3);
@@ -347,7 +347,7 @@ final class EdgesOfHours {
 
     private static void errors() {
         String most = "1000*1000*1000*1000";
-        Edge.holds(PART, "ERROR: / by 0, a value above 10 to the 12 or below 0 by more than that.", () -> {
+        Edge.holds(9, PART, "ERROR: / by 0, a value above 10 to the 12 or below 0 by more than that.", () -> {
             value("1/0", ERROR);
             value("0/0", ERROR);
             value("1/(1-1)", ERROR);

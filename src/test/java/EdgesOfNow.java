@@ -19,7 +19,7 @@ final class EdgesOfNow {
     }
 
     private static void person() {
-        Edge.holds("Promise 6", "4 what it FEELS (as behind the latest (2))", () -> {
+        Edge.holds(6, "4 what it FEELS (as behind the latest (2))", () -> {
             KnobHall hall = Hall.of("room h 100 0 10;person a h 20 0 9;person b h 20 1 9;knob 30 h;");
             Hall.due("without an HOUR, as told", hall.person(0, 4) * 1000 + hall.person(1, 4), 100100);
             hall.go(1);
@@ -27,7 +27,7 @@ final class EdgesOfNow {
             hall.go(1);
             Hall.due("behind the second one", hall.person(0, 4) * 1000 + hall.person(1, 4), 120110);
         });
-        Edge.holds("Promise 6", "IndexOutOfBoundsException: no such PERSON.", () -> {
+        Edge.holds(6, "IndexOutOfBoundsException: no such PERSON.", () -> {
             KnobHall hall = Hall.of(FULL);
             Hall.due("the last one", Hall.person(hall, 4, 0), 0);
             Hall.due("person(5, 0)", Hall.person(hall, 5, 0), -1000);
@@ -41,7 +41,7 @@ final class EdgesOfNow {
             Hall.due("neither such a what", Hall.person(hall, 5, 7), -1000);
             Edge.leaves("person(2, 0)", Halls::rich, other -> Hall.person(other, 2, 0));
         });
-        Edge.holds("Promise 6", "NoSuchElementException: no such what.", () -> {
+        Edge.holds(6, "NoSuchElementException: no such what.", () -> {
             KnobHall hall = Hall.of(FULL);
             Hall.due("the first", Hall.person(hall, 1, 0), 3);
             Hall.due("the last", Hall.person(hall, 1, 6), 0);
@@ -54,7 +54,7 @@ final class EdgesOfNow {
     }
 
     private static void room() {
-        Edge.holds("Promise 7", "NONE: no such ones.", () -> {
+        Edge.holds(7, "NONE: no such ones.", () -> {
             KnobHall hall = Hall.of(FULL);
             int[] told = {50, 5, 5, 9};
             for (int what = 0; what < 4; what++) {
@@ -75,7 +75,7 @@ final class EdgesOfNow {
     }
 
     private static void out() {
-        Edge.holds("Promise 8", "OUT of an HOUR 0 up to 9999; NONE: no such one.", () -> {
+        Edge.holds(8, "OUT of an HOUR 0 up to 9999; NONE: no such one.", () -> {
             KnobHall hall = Hall.of("out 10;out 20;out 0;");
             Hall.due("out(0)", hall.out(0), 10);
             Hall.due("out(9998)", hall.out(9998), 0);
@@ -92,7 +92,7 @@ final class EdgesOfNow {
     }
 
     private static void law() {
-        Edge.holds("Promise 9", "Long.MIN_VALUE: an ERROR, no such law, no such ones.", () -> {
+        Edge.holds(9, "Long.MIN_VALUE: an ERROR, no such law, no such ones.", () -> {
             String laws = "law lose warm;law turn 100*wish;law cross 100*felt;";
             KnobHall hall = Hall.of(FULL + laws);
             Hall.due("lose of the last one", hall.law(0, 4), 50);
@@ -130,7 +130,7 @@ final class EdgesOfNow {
     }
 
     private static void crossest() {
-        Edge.holds("Promise 29", "The PERSON who is most CROSS, the first of several; NONE: there is none.", () -> {
+        Edge.holds(29, "The PERSON who is most CROSS, the first of several; NONE: there is none.", () -> {
             Hall.due("of a new object", new KnobHall().crossest(), -1);
             Hall.due("rooms alone", Hall.of("room h 1 1 1;").crossest(), -1);
             KnobHall hall = Hall.of(FULL + "law cross (wish = 130)*2 + (wish = 150)*2 + (wish = 120);");
@@ -145,7 +145,7 @@ final class EdgesOfNow {
     }
 
     private static void spread() {
-        Edge.holds("Promise 32", "How far the warmest ROOM is from the coldest one now, tenths; 0 without ROOMS.", () -> {
+        Edge.holds(32, "How far the warmest ROOM is from the coldest one now, tenths; 0 without ROOMS.", () -> {
             Hall.due("without ROOMS", new KnobHall().spread(), 0);
             Hall.due("one", Hall.of("room h 400 1 1;").spread(), 0);
             Hall.due("alike", Hall.of("room h 7 1 1;room s 7 1 1;").spread(), 0);
@@ -162,7 +162,7 @@ final class EdgesOfNow {
     }
 
     private static void count() {
-        Edge.holds("Promise 44", "5 which ROOM it hears (NONE without ROOMS)", () -> {
+        Edge.holds(44, "5 which ROOM it hears (NONE without ROOMS)", () -> {
             Hall.due("of a new object", new KnobHall().count(5), -1);
             Hall.due("a text without", Hall.of("price 1;").count(5), -1);
             Hall.due("one", Hall.of("room h 1 1 1;").count(5), 0);
@@ -171,14 +171,14 @@ final class EdgesOfNow {
             Hall.tell(hall, "price 1;");
             Hall.due("without any more", hall.count(5), -1);
         });
-        Edge.holds("Promise 44", "6 a CANDLE (1, 0), 7 whether the stove would be ON now (1, 0)", () -> {
+        Edge.holds(44, "6 a CANDLE (1, 0), 7 whether the stove would be ON now (1, 0)", () -> {
             KnobHall hall = Hall.of("room h 150 1 1;");
             Hall.due("no CANDLE, ON", hall.count(6) * 10 + hall.count(7), 1);
             hall.candle(true);
             Hall.due("a CANDLE, not ON", hall.count(6) * 10 + hall.count(7), 10);
             Hall.due("no fire by asking", hall.count(9), 0);
         });
-        Edge.holds("Promise 44", "10 TURNS, 11 CROSS of all", () -> {
+        Edge.holds(44, "10 TURNS, 11 CROSS of all", () -> {
             Hall.due("of nobody", new KnobHall().count(10) + new KnobHall().count(11), 0);
             KnobHall hall = Hall.of(FULL + "law turn 1;law cross wish;");
             hall.go(5);
@@ -189,11 +189,11 @@ final class EdgesOfNow {
             hall.go(1);
             Hall.due("30 is no other SET", hall.count(10), 4);
         });
-        Edge.holds("Promise 44", "2 KNOTS", () -> {
+        Edge.holds(44, "2 KNOTS", () -> {
             Hall.due("none", Hall.of("room h 1 1 1;").count(2), 0);
             Hall.due("of all E", Hall.of("law lose 1;law turn 1+1;law cross not (warm < 2);").count(2), 8);
         });
-        Edge.holds("Promise 44", "12 WEAR, 13 by how many it is KNOWN, 14 what can be undone.", () -> {
+        Edge.holds(44, "12 WEAR, 13 by how many it is KNOWN, 14 what can be undone.", () -> {
             KnobHall hall = Hall.of(FULL);
             Hall.due("at first", hall.count(12) + hall.count(13) + hall.count(14), 0);
             hall.wear(1, 5, true);
@@ -206,7 +206,7 @@ final class EdgesOfNow {
             hall.set(21);
             Hall.due("one to undo", hall.count(14), 1);
         });
-        Edge.holds("Promise 44", "NONE for another what.", () -> {
+        Edge.holds(44, "NONE for another what.", () -> {
             KnobHall hall = Halls.rich();
             Hall.due("count(0)", hall.count(0), 2);
             Hall.due("count(14)", hall.count(14), 4);

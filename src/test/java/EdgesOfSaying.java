@@ -32,7 +32,7 @@ final class EdgesOfSaying {
     }
 
     private static void limits() {
-        Edge.holds("==== 3.", "SET is the mean of what both say, cut, 5 .. 30;", () -> {
+        Edge.holds(26, "==== 3.", "SET is the mean of what both say, cut, 5 .. 30;", () -> {
             // One says two more and the other one two less: who said the truth alone would have it a degree off, which is
             // worse than 6; but where 5 or 30 is the end it isn't off.
             due(6, 6, 0, 12, 21);
@@ -55,7 +55,7 @@ final class EdgesOfSaying {
             // However far they are apart, each has it a degree nearer for 6.
             due(0, 40, 21);
         });
-        Edge.holds("==== 3.", "and 6, if one didn't say what one WANTS.", () -> {
+        Edge.holds(26, "==== 3.", "and 6, if one didn't say what one WANTS.", () -> {
             // 20 and 22: by the truth 21, ten off for both; by two less a has it: 6.
             due(20, 22, 21);
             due(22, 20, 12);
@@ -65,7 +65,7 @@ final class EdgesOfSaying {
     }
 
     private static void rests() {
-        Edge.holds("Promise 26", "How many RESTS SAY has; NONE: no such ones, alike.", () -> {
+        Edge.holds(26, "How many RESTS SAY has; NONE: no such ones, alike.", () -> {
             KnobHall hall = two(20, 20);
             Hall.due("rests(0, 1)", hall.rests(0, 1), 3);
             Hall.due("rests(1, 0)", hall.rests(1, 0), 3);
@@ -85,13 +85,13 @@ final class EdgesOfSaying {
     }
 
     private static void rest() {
-        Edge.holds("==== 3.", "RESTS: by what the first one says, then the second one.", () -> {
+        Edge.holds(27, "==== 3.", "RESTS: by what the first one says, then the second one.", () -> {
             due(20, 20, 0, 12, 21);
             KnobHall hall = two(20, 22);
             Hall.due("a less, b more", hall.rest(0, 1, 0), 21);
             Hall.due("b more, a less", hall.rest(1, 0, 0), 12);
         });
-        Edge.holds("Promise 27", "-2: there are no so many; NONE likewise, k is below 0.", () -> {
+        Edge.holds(27, "-2: there are no so many; NONE likewise, k is below 0.", () -> {
             KnobHall hall = two(20, 20);
             Hall.due("the first", hall.rest(0, 1, 0), 0);
             Hall.due("the last", hall.rest(0, 1, 2), 21);

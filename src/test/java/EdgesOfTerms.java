@@ -31,7 +31,7 @@ final class EdgesOfTerms {
     }
 
     private static void lines() {
-        Edge.holds("Terms", "A TEXT: { LINE ';' }.", () -> {
+        Edge.holds(3, "Terms", "A TEXT: { LINE ';' }.", () -> {
             good("", 0);
             good(" \n\n ", 0);
             good("out 1;", 1);
@@ -52,7 +52,7 @@ final class EdgesOfTerms {
             most.append("sun a 1 1;".repeat(4)).append("out 1;".repeat(8)).append("knob 9 a;price 1;");
             good(most + "law lose 1;law turn 1;law cross 1;", 27);
         });
-        Edge.holds("Terms", "LINE: room W N N N | person W W N N N | sun W N N | out N | knob N W | price N | law LAW E.", () -> {
+        Edge.holds(3, "Terms", "LINE: room W N N N | person W W N N N | sun W N N | out N | knob N W | price N | law LAW E.", () -> {
             lineOf("room", "w", "1", "1", "1");
             lineOf("person", "w", "r", "1", "1", "1");
             lineOf("sun", "r", "1", "1");
@@ -95,7 +95,7 @@ final class EdgesOfTerms {
     }
 
     private static void lawsOfThree() {
-        Edge.holds("Terms", "LAW: lose | turn | cross.", () -> {
+        Edge.holds(3, "Terms", "LAW: lose | turn | cross.", () -> {
             good("law lose 1;law turn 1;law cross 1;", 3);
             for (String word : LANGUAGE) {
                 if (!isOf("lose turn cross", word)) {
@@ -110,7 +110,7 @@ final class EdgesOfTerms {
     }
 
     private static void words() {
-        Edge.holds("Terms", "Words: small letters in a row;", () -> {
+        Edge.holds(3, "Terms", "Words: small letters in a row;", () -> {
             good("room a 1 1 1;room z 1 1 1;", 2);
             char[] none = {'`', '{', '_', 'A', 'Z', (char) 228, (char) 0};
             for (char c : none) {
@@ -121,7 +121,7 @@ final class EdgesOfTerms {
             Hall.dueFault("room h s 1 1 1;", 1, 7);
             Hall.dueFault("ROOM h 1 1 1;", 1, 0);
         });
-        Edge.holds("Terms", "W: one of 1 .. 6 letters, none of those of the language;", () -> {
+        Edge.holds(3, "Terms", "W: one of 1 .. 6 letters, none of those of the language;", () -> {
             good("room a 1 1 1;room abcdef 1 1 1;person z abcdef 1 1 1;person zyxwvu a 1 1 1;", 4);
             Hall.dueFault("room abcdefg 1 1 1;", 1, 5);
             Hall.dueFault("room abcdef 1 1 1;person abcdefg abcdef 1 1 1;", 1, 25);
@@ -141,7 +141,7 @@ final class EdgesOfTerms {
     }
 
     private static void numbers() {
-        Edge.holds("Terms", "N: digits.", () -> {
+        Edge.holds(3, "Terms", "N: digits.", () -> {
             good("out 0;out 9;out 10;out 00;out 0000000000000000000000000000400;", 5);
             Hall.dueFault("out /;", 1, 4);
             Hall.dueFault("out :;", 1, 4);
@@ -156,7 +156,7 @@ final class EdgesOfTerms {
     }
 
     private static void blanks() {
-        Edge.holds("Terms", "Blanks 10, 32.", () -> {
+        Edge.holds(3, "Terms", "Blanks 10, 32.", () -> {
             good("out 1;", 1);
             good("out\n1;", 1);
             good(" \n out \n 1 \n ; \n", 1);
@@ -178,7 +178,7 @@ final class EdgesOfTerms {
     }
 
     private static void formulas() {
-        Edge.holds("Terms", "E: A { or A }. A: B { and B }.", () -> {
+        Edge.holds(3, "Terms", "E: A { or A }. A: B { and B }.", () -> {
             good(law("1 or 1 or 1"), 1);
             good(law("1 and 1 or 1 and 1"), 1);
             faultOf("or 1", 1, 0);
@@ -189,7 +189,7 @@ final class EdgesOfTerms {
             faultOf("1 and or 1", 1, 6);
             faultOf("", 1, 0);
         });
-        Edge.holds("Terms", "B: not B | C.", () -> {
+        Edge.holds(3, "Terms", "B: not B | C.", () -> {
             good(law("not 1"), 1);
             good(law("not not 1 < 2"), 1);
             good(law("1 and not 1 or not 1"), 1);
@@ -201,7 +201,7 @@ final class EdgesOfTerms {
             faultOf("1 * not 1", 1, 4);
             faultOf("not < 1", 1, 4);
         });
-        Edge.holds("Terms", "C: S [ ( < | <= | = | <> | >= | > ) S ].", () -> {
+        Edge.holds(3, "Terms", "C: S [ ( < | <= | = | <> | >= | > ) S ].", () -> {
             String[] signs = {"<", "<=", "=", "<>", ">=", ">"};
             for (String sign : signs) {
                 good(law("1 " + sign + " 1"), 1);
@@ -220,7 +220,7 @@ final class EdgesOfTerms {
                 faultOf("1 " + sign, 1, 2 + sign.length());
             }
         });
-        Edge.holds("Terms", "S: T { ( + | - ) T }. T: P { ( * | / ) P }.", () -> {
+        Edge.holds(3, "Terms", "S: T { ( + | - ) T }. T: P { ( * | / ) P }.", () -> {
             good(law("1 + 1 - 1 * 1 / 1"), 1);
             String[] signs = {"+", "-", "*", "/"};
             for (String sign : signs) {
@@ -230,7 +230,7 @@ final class EdgesOfTerms {
                 faultOf("(" + sign + "1)", 1, 1);
             }
         });
-        Edge.holds("Terms", "P: N | NAME | '(' E ')'; N of E 0 .. 9999.", () -> {
+        Edge.holds(3, "Terms", "P: N | NAME | '(' E ')'; N of E 0 .. 9999.", () -> {
             good(law("0"), 1);
             good(law("9999"), 1);
             good(law("0009999"), 1);
@@ -252,7 +252,7 @@ final class EdgesOfTerms {
             Hall.dueFault("law lose (1", 1, 11);
             Hall.dueFault("law lose 1", 1, 10);
         });
-        Edge.holds("Terms", "NAME: warm outer felt wish set leak hour.", () -> {
+        Edge.holds(3, "Terms", "NAME: warm outer felt wish set leak hour.", () -> {
             for (String word : LANGUAGE) {
                 if (isOf("warm outer felt wish set leak hour", word)) {
                     good(law(word), 1);
@@ -268,7 +268,7 @@ final class EdgesOfTerms {
     }
 
     private static void signs() {
-        Edge.holds("Terms", "A = (or > behind <) right behind < or > belongs to it.", () -> {
+        Edge.holds(3, "Terms", "A = (or > behind <) right behind < or > belongs to it.", () -> {
             good(law("1<=1"), 1);
             good(law("1<>1"), 1);
             good(law("1>=1"), 1);
@@ -327,21 +327,21 @@ final class EdgesOfTerms {
     }
 
     private static void rooms() {
-        Edge.holds("Terms", "ROOMS, at most 5:", () -> {
+        Edge.holds(3, "Terms", "ROOMS, at most 5:", () -> {
             atMost(4, "room # 1 1 1;");
             Hall.due("count(0)", Hall.of(ROOM + "room a 1 1 1;room b 1 1 1;room c 1 1 1;room d 1 1 1;").count(0), 5);
         });
-        Edge.holds("Terms", "WARM 0 .. 400 (tenths of a degree)", () -> {
+        Edge.holds(3, "Terms", "WARM 0 .. 400 (tenths of a degree)", () -> {
             number("room h # 1 1;", 0, 400);
             Hall.due("0", Hall.of("room h 0 1 1;").room(0, 0), 0);
             Hall.due("400", Hall.of("room h 400 1 1;").room(0, 0), 400);
         });
-        Edge.holds("Terms", "LEAK 0 .. 99", () -> {
+        Edge.holds(3, "Terms", "LEAK 0 .. 99", () -> {
             number("room h 1 # 1;", 0, 99);
             Hall.due("0", Hall.of("room h 1 0 1;").room(0, 1), 0);
             Hall.due("99", Hall.of("room h 1 99 1;").room(0, 1), 99);
         });
-        Edge.holds("Terms", "HEAT 0 .. 99 (tenths an HOUR, if the stove is on)", () -> {
+        Edge.holds(3, "Terms", "HEAT 0 .. 99 (tenths an HOUR, if the stove is on)", () -> {
             number("room h 1 1 #;", 0, 99);
             Hall.due("0", Hall.of("room h 1 1 0;").room(0, 2), 0);
             Hall.due("99", Hall.of("room h 1 1 99;").room(0, 2), 99);
@@ -351,22 +351,22 @@ final class EdgesOfTerms {
     }
 
     private static void people() {
-        Edge.holds("Terms", "PEOPLE, at most 5:", () -> {
+        Edge.holds(3, "Terms", "PEOPLE, at most 5:", () -> {
             atMost(5, "person # r 1 1 1;");
             Hall.due("count(1)", Hall.of(ROOM + "person a r 1 1 1;person b r 1 1 1;person c r 1 1 1;person d r 1 1 1;"
                 + "person e r 1 1 1;").count(1), 5);
         });
-        Edge.holds("Terms", "WANTS 0 .. 40 degrees", () -> {
+        Edge.holds(3, "Terms", "WANTS 0 .. 40 degrees", () -> {
             number(ROOM + "person p r # 1 1;", 0, 40);
             Hall.due("0", Hall.of(ROOM + "person p r 0 1 1;").person(0, 1), 0);
             Hall.due("40", Hall.of(ROOM + "person p r 40 1 1;").person(0, 1), 40);
         });
-        Edge.holds("Terms", "LATE 0 .. 5 HOURS", () -> {
+        Edge.holds(3, "Terms", "LATE 0 .. 5 HOURS", () -> {
             number(ROOM + "person p r 1 # 1;", 0, 5);
             Hall.due("0", Hall.of(ROOM + "person p r 1 0 1;").person(0, 2), 0);
             Hall.due("5", Hall.of(ROOM + "person p r 1 5 1;").person(0, 2), 5);
         });
-        Edge.holds("Terms", "passes at an HOUR 0 .. 23", () -> {
+        Edge.holds(3, "Terms", "passes at an HOUR 0 .. 23", () -> {
             number(ROOM + "person p r 1 1 #;", 0, 23);
             Hall.due("0", Hall.of(ROOM + "person p r 1 1 0;").person(0, 3), 0);
             Hall.due("23", Hall.of(ROOM + "person p r 1 1 23;").person(0, 3), 23);
@@ -374,11 +374,11 @@ final class EdgesOfTerms {
     }
 
     private static void suns() {
-        Edge.holds("Terms", "SUN, at most 4:", () -> {
+        Edge.holds(3, "Terms", "SUN, at most 4:", () -> {
             atMost(4, "sun r 1 1;");
             atMost(4, "sun r 1 1;", "sun r 2 1;");
         });
-        Edge.holds("Terms", "on a ROOM at an HOUR 0 .. 23, 0 .. 99 tenths (several for one add up)", () -> {
+        Edge.holds(3, "Terms", "on a ROOM at an HOUR 0 .. 23, 0 .. 99 tenths (several for one add up)", () -> {
             number(ROOM + "sun r # 1;", 0, 23);
             number(ROOM + "sun r 1 #;", 0, 99);
             Hall.due("0 tenths", Hall.of(ROOM + "sun r 0 0;").room(0, 3), 0);
@@ -398,13 +398,13 @@ final class EdgesOfTerms {
     }
 
     private static void weathers() {
-        Edge.holds("Terms", "OUT, at most 8: tenths 0 .. 400", () -> {
+        Edge.holds(3, "Terms", "OUT, at most 8: tenths 0 .. 400", () -> {
             atMost(8, "out 1;");
             number("out #;", 0, 400);
             Hall.due("0", Hall.of("out 0;").out(0), 0);
             Hall.due("400", Hall.of("out 400;").out(0), 400);
         });
-        Edge.holds("Terms", "of HOUR 0 on, and again from the first one on (100 without)", () -> {
+        Edge.holds(3, "Terms", "of HOUR 0 on, and again from the first one on (100 without)", () -> {
             Hall.due("without", Hall.of(ROOM).out(0), 100);
             Hall.due("without, later", Hall.of(ROOM).out(9999), 100);
             Hall.due("one, HOUR 0", Hall.of("out 7;").out(0), 7);
@@ -426,7 +426,7 @@ final class EdgesOfTerms {
     }
 
     private static void knobAndPrice() {
-        Edge.holds("Terms", "knob: SET 5 .. 30 degrees, hears a ROOM (20 without, the first ROOM).", () -> {
+        Edge.holds(3, "Terms", "knob: SET 5 .. 30 degrees, hears a ROOM (20 without, the first ROOM).", () -> {
             number(ROOM + "knob # r;", 5, 30);
             Hall.due("5", Hall.of(ROOM + "knob 5 r;").count(4), 5);
             Hall.due("30", Hall.of(ROOM + "knob 30 r;").count(4), 30);
@@ -436,7 +436,7 @@ final class EdgesOfTerms {
             Hall.due("hears the first one", Hall.of(ROOM + "room s 1 1 1;knob 9 r;").count(5), 0);
             Hall.due("without a ROOM", Hall.of("out 1;").count(5), -1);
         });
-        Edge.holds("Terms", "price: 0 .. 99 an HOUR of fire (3 without).", () -> {
+        Edge.holds(3, "Terms", "price: 0 .. 99 an HOUR of fire (3 without).", () -> {
             number("price #;", 0, 99);
             Hall.due("0", Hall.of(ROOM + "price 0;").ahead(2, 1, 0), 0);
             Hall.due("99", Hall.of(ROOM + "price 99;").ahead(2, 1, 0), 198);
@@ -445,7 +445,7 @@ final class EdgesOfTerms {
     }
 
     private static void numbered() {
-        Edge.holds("Terms", "All numbered as they come; ROOMS, PEOPLE have names of their kind.", () -> {
+        Edge.holds(3, "Terms", "All numbered as they come; ROOMS, PEOPLE have names of their kind.", () -> {
             KnobHall hall = Hall.of("room z 1 1 1;person a z 1 1 1;room a 2 2 2;person z a 2 2 2;");
             Hall.due("room z", hall.named(0, Hall.letters("z")), 0);
             Hall.due("room a", hall.named(0, Hall.letters("a")), 1);

@@ -17,7 +17,7 @@ final class EdgesOfText {
     }
 
     private static void newObject() {
-        Edge.holds("Promise 1", "A TEXT without LINES; an empty TAPE.", () -> {
+        Edge.holds(1, "A TEXT without LINES; an empty TAPE.", () -> {
             KnobHall hall = new KnobHall();
             int[] counts = {0, 0, 0, 0, 20, -1, 0, 0, 0, 0, 0, 0, 0, 0, 0};
             for (int what = 0; what < counts.length; what++) {
@@ -48,7 +48,7 @@ final class EdgesOfText {
     }
 
     private static void feed() {
-        Edge.holds("Promise 2", "Twenty bytes come behind the TAPE, four of each number, the highest first: how many it has;", () -> {
+        Edge.holds(2, "Twenty bytes come behind the TAPE, four of each number, the highest first: how many it has;", () -> {
             KnobHall hall = new KnobHall();
             Hall.due("the first", hall.feed(0x6f757420, 0x373b6f75, 0x7420383b, 0x6f757420, 0x393b6f75), 20);
             Hall.due("the second", hall.feed(0x7420363b, 0x20202020, 0x20202020, 0x20202020, 0x20202020), 40);
@@ -59,7 +59,7 @@ final class EdgesOfText {
             hall.feed(-1, 0x20202020, 0x20202020, 0x20202020, 0x20202020);
             Hall.due("a byte of 255", hall.text(1), -1);
         });
-        Edge.holds("Promise 2", "NONE, and none come, if it would have more than 700.", () -> {
+        Edge.holds(2, "NONE, and none come, if it would have more than 700.", () -> {
             KnobHall hall = full();
             Hall.due("feed 36", hall.feed(0, 0, 0, 0, 0), -1);
             Hall.due("feed 37", hall.feed(0, 0, 0, 0, 0), -1);
@@ -72,7 +72,7 @@ final class EdgesOfText {
     }
 
     private static void firstBytes() {
-        Edge.holds("Promise 3", "The TAPE's first n bytes (it is empty then) are the TEXT", () -> {
+        Edge.holds(3, "The TAPE's first n bytes (it is empty then) are the TEXT", () -> {
             KnobHall hall = new KnobHall();
             hall.feed(0x6f757420, 0x373b6f75, 0x7420383b, 0x6f757420, 0x393b2020);
             Hall.due("text(6), the first LINE alone", hall.text(6), 1);
@@ -108,7 +108,7 @@ final class EdgesOfText {
     }
 
     private static void anew() {
-        Edge.holds("Promise 3", "(HOUR 0, no CANDLE, no JUMPERS, no WEAR, all KNOWN, no IMAGE, nothing to undo then)", () -> {
+        Edge.holds(3, "(HOUR 0, no CANDLE, no JUMPERS, no WEAR, all KNOWN, no IMAGE, nothing to undo then)", () -> {
             KnobHall hall = Halls.rich();
             hall.known(0);
             hall.text(0);
@@ -167,7 +167,7 @@ final class EdgesOfText {
     }
 
     private static void fault() {
-        Edge.holds("Promise 3", "how many LINES; NONE with a FAULT, all stays;", () -> {
+        Edge.holds(3, "how many LINES; NONE with a FAULT, all stays;", () -> {
             KnobHall hall = Halls.rich();
             Hall.due("a text with a FAULT", hall.text(40), -1);
             String[] wrong = {"out 401;", "room x 1 1 1;person x y 1 1 1;", "#", "law lose 1", "price 1;price 1;",
@@ -183,7 +183,7 @@ final class EdgesOfText {
     }
 
     private static void tooFewBytes() {
-        Edge.holds("Promise 3", "-2, and the TAPE stays: there are not so many, n is below 0.", () -> {
+        Edge.holds(3, "-2, and the TAPE stays: there are not so many, n is below 0.", () -> {
             KnobHall hall = new KnobHall();
             hall.feed(0x6f757420, 0x373b6f75, 0x7420383b, 0x6f757420, 0x393b2020);
             Hall.due("text(21)", hall.text(21), -2);
@@ -201,7 +201,7 @@ final class EdgesOfText {
     }
 
     private static void latestFault() {
-        Edge.holds("Promise 4", "Of the latest text() that was not -2, what 0: its FAULT (0), 1: its place (NONE without).", () -> {
+        Edge.holds(4, "Of the latest text() that was not -2, what 0: its FAULT (0), 1: its place (NONE without).", () -> {
             KnobHall hall = new KnobHall();
             dueFault("without a text()", hall, 0, -1);
             hall.text(1);
@@ -220,7 +220,7 @@ final class EdgesOfText {
             Hall.tell(hall, "out 1;");
             dueFault("none then", hall, 0, -1);
         });
-        Edge.holds("Promise 4", "NONE for another what.", () -> {
+        Edge.holds(4, "NONE for another what.", () -> {
             KnobHall hall = new KnobHall();
             Hall.tell(hall, "out 401;");
             int[] wrong = {-1, 2, Integer.MIN_VALUE, Integer.MAX_VALUE};
@@ -240,7 +240,7 @@ final class EdgesOfText {
     private static void named() {
         Supplier<KnobHall> made = () -> Hall.of("room a 1 1 1;room zzzzzz 1 1 1;room az 1 1 1;room aaaaaa 1 1 1;room z 1 1 1;"
             + "person z a 1 1 1;person b a 1 1 1;person azazaz a 1 1 1;person c a 1 1 1;person aaaaa a 1 1 1;");
-        Edge.holds("Promise 5", "5 bits each (a is 1; the first one highest of six, 0 behind the last one);", () -> {
+        Edge.holds(5, "5 bits each (a is 1; the first one highest of six, 0 behind the last one);", () -> {
             KnobHall hall = made.get();
             Hall.due("a", hall.named(0, 1 << 25), 0);
             Hall.due("zzzzzz", hall.named(0, 26 << 25 | 26 << 20 | 26 << 15 | 26 << 10 | 26 << 5 | 26), 1);
@@ -251,7 +251,7 @@ final class EdgesOfText {
             Hall.due("azazaz", hall.named(1, 1 << 25 | 26 << 20 | 1 << 15 | 26 << 10 | 1 << 5 | 26), 2);
             Hall.due("aaaaa", hall.named(1, 1 << 25 | 1 << 20 | 1 << 15 | 1 << 10 | 1 << 5), 4);
         });
-        Edge.holds("Promise 5", "NONE: there is none such.", () -> {
+        Edge.holds(5, "NONE: there is none such.", () -> {
             KnobHall hall = made.get();
             int[] wrong = {0, 1, -1, 1 << 20, 1 << 25 | 1, 1 << 30, 1 << 30 | 1 << 25, 1 << 31 | 1 << 25, 2 << 25, Integer.MAX_VALUE};
             for (int letters : wrong) {
@@ -271,7 +271,7 @@ final class EdgesOfText {
     }
 
     private static void calls() {
-        Edge.holds("What it is", "An object is used for at most 512 calls after it has been made;", () -> {
+        Edge.holds(1, "What it is", "An object is used for at most 512 calls after it has been made;", () -> {
             KnobHall hall = Hall.of("room h 100 0 1;knob 30 h;");
             // The text took two feeds and a text().
             for (int call = 4; call < 512; call++) {

@@ -27,7 +27,7 @@ final class EdgesOfWear {
     }
 
     private static void wear() {
-        Edge.holds("Promise 35", "WEAR (SET 5 .. 30): its number; NONE: no such ones, or there are 24.", () -> {
+        Edge.holds(35, "WEAR (SET 5 .. 30): its number; NONE: no such ones, or there are 24.", () -> {
             KnobHall hall = Hall.of(HOUSE);
             Hall.due("SET 4", hall.wear(8, 4, true), -1);
             Hall.due("SET 31", hall.wear(8, 31, true), -1);
@@ -57,7 +57,7 @@ final class EdgesOfWear {
     }
 
     private static void hours() {
-        Edge.holds("==== 3.", "behind so many HOURS 1 .. 60 (as it goes from the TEXT on) SET was at least so much, or less.", () -> {
+        Edge.holds(35, "==== 3.", "behind so many HOURS 1 .. 60 (as it goes from the TEXT on) SET was at least so much, or less.", () -> {
             // LATE 0: SET 23 behind 8 HOURS, LATE 5: 18.
             for (int set = 17; set <= 25; set++) {
                 int bits = 0;
@@ -107,7 +107,7 @@ final class EdgesOfWear {
     }
 
     private static void twentyFour() {
-        Edge.holds("==== 3.", "WEAR, at most 24, numbered from 0 on:", () -> {
+        Edge.holds(35, "==== 3.", "WEAR, at most 24, numbered from 0 on:", () -> {
             KnobHall hall = Hall.of(HOUSE);
             for (int i = 0; i < 24; i++) {
                 Hall.due("number " + i, i % 3 == 2 ? hall.strike(i - 1) : hall.wear(1, 5, true), i);
@@ -126,7 +126,7 @@ final class EdgesOfWear {
     }
 
     private static void strike() {
-        Edge.holds("Promise 36", "A STRIKE: its number; NONE: no such one of WEAR, or there are 24.", () -> {
+        Edge.holds(36, "A STRIKE: its number; NONE: no such one of WEAR, or there are 24.", () -> {
             KnobHall hall = Hall.of(HOUSE);
             Hall.due("of none", hall.strike(0), -1);
             hall.wear(8, 23, true);
@@ -148,7 +148,7 @@ final class EdgesOfWear {
     }
 
     private static void known() {
-        Edge.holds("Promise 37", "KNOWN by n from now on (-1: by all, also those to come): true; false: no such n.", () -> {
+        Edge.holds(37, "KNOWN by n from now on (-1: by all, also those to come): true; false: no such n.", () -> {
             KnobHall hall = Hall.of(HOUSE);
             Hall.due("known(0) of none", hall.known(0), true);
             Hall.due("known(1) of none", hall.known(1), false);
@@ -181,7 +181,7 @@ final class EdgesOfWear {
     }
 
     private static void struck() {
-        Edge.holds("==== 3.", "KNOWN by n (all at first): the first n that aren't STRUCK by one of these (a STRIKE may be STRUCK: then it doesn't count; asked from the last one on).", () -> {
+        Edge.holds(37, "==== 3.", "KNOWN by n (all at first): the first n that aren't STRUCK by one of these (a STRIKE may be STRUCK: then it doesn't count; asked from the last one on).", () -> {
             KnobHall hall = Hall.of(HOUSE);
             hall.wear(8, 23, true);
             Hall.due("all at first", hall.lately(0), 1);
@@ -208,7 +208,7 @@ final class EdgesOfWear {
     }
 
     private static void lately() {
-        Edge.holds("==== 3.", "LATELY for a PERSON: how LATE 0 .. 5 (bits) that one may feel, in place of what is told, by which all KNOWN ones are so.", () -> {
+        Edge.holds(38, "==== 3.", "LATELY for a PERSON: how LATE 0 .. 5 (bits) that one may feel, in place of what is told, by which all KNOWN ones are so.", () -> {
             KnobHall hall = Hall.of(HOUSE);
             Hall.due("none KNOWN", hall.lately(0), 63);
             for (int late = 0; late <= 5; late++) {
@@ -224,7 +224,7 @@ final class EdgesOfWear {
             Hall.due("by none", hall.lately(0), 0);
             Hall.due("what is told stays", hall.person(0, 2), 2);
         });
-        Edge.holds("Promise 38", "LATELY (bit k: k HOURS); NONE: no such PERSON.", () -> {
+        Edge.holds(38, "LATELY (bit k: k HOURS); NONE: no such PERSON.", () -> {
             KnobHall hall = Hall.of(HOUSE);
             hall.wear(8, 18, true);
             Hall.due("all six", hall.lately(0), 63);
