@@ -12,6 +12,7 @@ public final class EdgeTest {
         EdgesOfSaying.hold();
         EdgesOfWear.hold();
         EdgesOfChance.hold();
+        EdgesOfLimits.hold();
         Edge.end();
     }
 }

@@ -7,6 +7,7 @@ final class EdgesOfSaying {
     private EdgesOfSaying() { }
 
     static void hold() {
+        sayings();
         limits();
         rests();
         rest();
@@ -64,6 +65,24 @@ final class EdgesOfSaying {
         });
     }
 
+    private static void sayings() {
+        Edge.holds(26, "==== 3.", "each says 0 what one WANTS, 1 two degrees more, 2 two less;", () -> {
+            // Beyond what one may want: -2 and 42 are 20, as -1 and 41 are.
+            due(0, 40, 21);
+            due(40, 0, 12);
+            due(1, 39, 21);
+            due(39, 1, 12);
+        });
+        Edge.holds(26, "==== 3.", "A REST: neither would lose less by saying otherwise.", () -> {
+            // One says two more, one two less, and both lose 6; by the truth one would have it a degree off and lose 10.
+            due(7, 7, 0, 12, 21);
+            due(28, 28, 0, 12, 21);
+            // One alone who would is enough.
+            due(5, 6);
+            due(6, 5);
+        });
+    }
+
     private static void rests() {
         Edge.holds(26, "How many RESTS SAY has; NONE: no such ones, alike.", () -> {
             KnobHall hall = two(20, 20);
@@ -85,6 +104,12 @@ final class EdgesOfSaying {
     }
 
     private static void rest() {
+        Edge.holds(27, "The k-th: ten times what the first one says and the second one;", () -> {
+            KnobHall hall = two(20, 20);
+            Hall.due("0 and 0", hall.rest(0, 1, 0), 0);
+            Hall.due("1 and 2", hall.rest(0, 1, 1), 12);
+            Hall.due("2 and 1", hall.rest(0, 1, 2), 21);
+        });
         Edge.holds(27, "==== 3.", "RESTS: by what the first one says, then the second one.", () -> {
             due(20, 20, 0, 12, 21);
             KnobHall hall = two(20, 22);
