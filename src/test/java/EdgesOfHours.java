@@ -377,6 +377,18 @@ final class EdgesOfHours {
             value("(" + most + "+1)>1", ERROR);
             value("1000*1000*1000*500*2", 1000000000000L);
             value("1000*1000*1000*501*2", ERROR);
+            // Great values that are none, whichever side is the greater one.
+            value("9999*9999*9999", 999700029999L);
+            value("0-9999*9999*9999", -999700029999L);
+            value("9999*(9999*9999)", 999700029999L);
+            value("4096*4096*4096*8", 549755813888L);
+            value("8*(4096*4096*4096)", 549755813888L);
+            value("(0-4096)*4096*4096*8", -549755813888L);
+            value("4096*4096*(0-4096)*8", -549755813888L);
+            value("4096*4096*4096*14", 962072674304L);
+            value("4096*4096*4096*15", ERROR);
+            value("4096*4096*4096*(0-15)", ERROR);
+            value("9999*9999*9999*2", ERROR);
             // Beyond a long it is an ERROR, too, also where its low bits are small.
             value("(" + most + ")*(" + most + ")", ERROR);
             value("4096*4096*4096*8*(4096*4096*4096*8)", ERROR);

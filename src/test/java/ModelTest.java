@@ -40,8 +40,21 @@ public final class ModelTest {
         return which == 4 ? least : least + random.nextInt(most - least + 1);
     }
 
+    /** Great values, near and beyond those that are an ERROR. */
+    private String product() {
+        StringBuilder product = new StringBuilder(upTo(2) == 0 ? "(0 - " : "(");
+        product.append(upTo(9999));
+        for (int i = upTo(3); i > 0; i--) {
+            product.append(upTo(5) == 0 ? " / " : " * ").append(upTo(1) == 0 ? upTo(9999) : upTo(300));
+        }
+        return product.append(')').toString();
+    }
+
     private String formula(int depth) {
         int kind = upTo(depth <= 0 ? 1 : 5);
+        if (kind == 0 && upTo(9) == 0) {
+            return product();
+        }
         if (kind == 0) {
             return String.valueOf(upTo(3) == 0 ? upTo(9999) : upTo(30));
         }
