@@ -144,6 +144,16 @@ public final class ChoiceTest {
         Hall.due("told the other way", hall.givesIn(1, 0), 1);
         hall = Hall.of("room h 0 0 0;person a h 0 0 1;person b h 40 0 1;law cross wish*9/400 + set - 50 - 250*(set=300);");
         Hall.due("SET is 5 .. 30", hall.givesIn(0, 1), 0);
+        // The one who loses nothing by just that SET gives in: 5 for WANTS 0 .. 5, 30 for WANTS 30 .. 40.
+        int[] wants = {0, 4, 5, 6, 29, 30, 31, 40};
+        for (int other : wants) {
+            int set = Math.max(5, Math.min(30, other));
+            for (int guess = Math.max(0, set - 2); guess <= set + 2; guess++) {
+                hall = Hall.of("room h 100 0 0;person a h " + other + " 0 1;person b h 20 0 1;law cross (wish <> 200) + 2*(wish = 200)*(set <> "
+                    + 10 * guess + ");");
+                Hall.due("by WANTS " + other + " SET is " + guess, hall.givesIn(0, 1), guess == set ? 1 : 0);
+            }
+        }
     }
 
     private static void strip() {

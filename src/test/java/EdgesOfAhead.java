@@ -132,6 +132,11 @@ final class EdgesOfAhead {
             Hall.due("lower isn't", hall.quicker(0, 300, 30, 25), 0);
             Hall.due("an HOUR less", hall.quicker(0, 102, 5, 10), 1);
             Hall.due("one HOUR both", hall.quicker(0, 101, 5, 10), 0);
+            // The first ROOM is so WARM now.
+            hall = Hall.of("room s 400 9 0;room h 100 0 0;law lose (leak = 0)*(0 - set/50);");
+            Hall.due("of the second ROOM", hall.quicker(1, 300, 5, 10), 1);
+            Hall.due("the other way", hall.quicker(1, 300, 10, 5), 0);
+            Hall.due("of the first one", hall.quicker(0, 300, 5, 10), 0);
         });
         Edge.holds(17, "QUICKER (1, 0); NONE: no such ones.", () -> {
             KnobHall hall = Hall.of(house);
@@ -326,6 +331,9 @@ final class EdgesOfAhead {
             Hall.due("an HOUR late, not in 99", hall.feels(1, 99), -2);
             hall.jumper(1, true);
             Hall.due("by 20 of a JUMPER in 80", hall.feels(1, 99), 80);
+            hall = Hall.of("room h 101 0 0;person a h 40 0 0;person b h 12 0 0;law lose 0 - 1;");
+            Hall.due("each by what it WANTS", hall.feels(1, 99), 19);
+            Hall.due("the other one not", hall.feels(0, 99), -2);
             Hall.due("of a new object", new KnobHall().feels(0, 1), -1);
             asked("feels(0, 99)", other -> other.feels(0, 99));
             asked("feels(0, 100)", other -> other.feels(0, 100));

@@ -120,6 +120,9 @@ final class EdgesOfChoice {
             Hall.due("fire is better: s, not t", Hall.of(rooms + "person p s 25 0 0;law turn 9;").hears(1), 1);
             Hall.due("no fire is better: h", Hall.of(rooms + "person p s 20 0 0;knob 20 t;").hears(1), 0);
             Hall.due("all alike", Hall.of(rooms).hears(1), 0);
+            KnobHall asked = Hall.of(rooms + "person p s 25 0 0;");
+            asked.soon(0, 300, 5);
+            Hall.due("by SET as it is, whatever was asked ahead", asked.hears(1), 1);
             KnobHall hall = Hall.of("room h 150 0 50;room s 149 0 50;person p s 20 0 0;");
             Hall.due("without a CANDLE both are heard cold", hall.hears(1), 0);
             hall.candle(true);
@@ -159,6 +162,8 @@ final class EdgesOfChoice {
             Hall.due("111: by none", hall.onAgain(0, 111, 10), -2);
             Hall.due("n 0, it is", hall.onAgain(0, 100, 0), 0);
             Hall.due("n 0, it isn't", hall.onAgain(0, 101, 0), -2);
+            Hall.due("the second ROOM, 100", hall.onAgain(1, 100, 10), 10);
+            Hall.due("the second ROOM, 101", hall.onAgain(1, 101, 10), -2);
             hall = Hall.of("room h 100 0 1;knob 5 h;");
             hall.go(7);
             Hall.due("from now on", hall.onAgain(0, 101, 10), 9);
@@ -205,6 +210,9 @@ final class EdgesOfChoice {
                 hall.set(5);
                 Hall.due("SET 5 as now", hall.night(1), 0);
             }
+            // By 5 it is ON below 50.
+            Hall.due("49: ON by night, too", Hall.of("room h 49 0 0;price 1;").night(1), 0);
+            Hall.due("50: not by night", Hall.of("room h 50 0 0;price 1;").night(1), -8);
         });
         Edge.holds(22, "==== 3.", "NIGHT for n DAYS (24 HOURS each, from now on):", () -> {
             // Eight HOURS of 24, wherever they begin.
@@ -324,6 +332,10 @@ final class EdgesOfChoice {
             Hall.due("half of 99 is 49", Hall.of(house.replace("#", "99")).strip(0, 9), 0);
             Hall.due("of the other ROOM", Hall.of(house.replace("#", "97")).strip(1, 9), 0);
             Hall.due("without a law, half of 1", Hall.of("room h 200 1 0;out 0;price 1;").strip(0, 9), 8);
+            KnobHall hall = Hall.of("room h 100 9 0;room s 200 1 0;out 0;price 7;knob 20 s;");
+            hall.soon(0, 300, 5);
+            Hall.due("of the second ROOM, eight HOURS of fire", hall.strip(1, 9), 56);
+            Hall.due("of the first one", hall.strip(0, 9), 0);
             Hall.due("more is PAID: 0", Hall.of("room h 199 3 0;price 1;law lose 1 - leak;").strip(0, 9), 0);
         });
         Edge.holds(31, "STRIP (n 1 .. 99); NONE: no such ones.", () -> {

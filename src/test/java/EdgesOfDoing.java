@@ -288,6 +288,21 @@ final class EdgesOfDoing {
                 other.go(99);
                 Hall.due("back()", other.back(), 5);
             });
+            // All that was counted up to the IMAGE, of the last one of each row, too.
+            Edge.leaves("back() to what was counted", () -> {
+                KnobHall one = Hall.of("room a 100 1 3;room b 150 2 5;person a a 20 0 23;person b b 21 1 22;person c a 25 2 0;"
+                    + "person d b 10 0 1;person e a 30 5 23;price 7;");
+                one.jumper(4, true);
+                one.go(60);
+                one.keep();
+                return one;
+            }, other -> {
+                Hall.due("TURNS by now", other.count(10) > 5, true);
+                other.jumper(4, false);
+                other.set(9);
+                other.go(99);
+                Hall.due("back()", other.back(), 60);
+            });
         });
     }
 

@@ -200,6 +200,8 @@ final class EdgesOfFaults {
             Hall.dueFault("law cross 0;law cross #", 3, 16);
             Hall.due("each law once", Hall.tell(new KnobHall(), "law cross 0;law lose 0;law turn 0;"), 3);
             Hall.dueFault("law cross 0;law lose 0;law turn 0;law lose 0;", 3, 38);
+            Hall.dueFault("law turn 0;law lose 0;law turn 0;", 3, 26);
+            Hall.dueFault("law turn 0;law cross 0;law lose 0;law cross 0;", 3, 38);
             // What a text ahead told isn't told.
             KnobHall hall = Hall.of(ROOM + "person a r 1 1 1;knob 9 r;price 1;law lose 1;");
             Hall.due("again", Hall.tell(hall, ROOM + "person a r 1 1 1;knob 9 r;price 1;law lose 1;"), 5);

@@ -135,6 +135,9 @@ final class EdgesOfHours {
                 warm("room h 400 99 0;sun h 0 99;sun h 0 99;sun h 0 9;out 400;out 0;knob 5 h;" + law, 2, 200);
             }
             warm("room h 201 50 0;out 100;knob 5 h;law lose 0;", 1, 201);
+            KnobHall two = Hall.of("room h 100 50 0;room s 300 50 0;out 100;knob 5 h;");
+            two.go(1);
+            Hall.due("each ROOM by its own WARM", two.room(0, 0) * 1000 + two.room(1, 0), 100200);
         });
     }
 
@@ -196,6 +199,10 @@ final class EdgesOfHours {
                 setBehind("room h 100 0 0;person a h 20 0 0;knob 15 h;law turn " + degrees + ";", 15 + Math.min(9, degrees));
                 setBehind("room h 100 0 0;person a h 20 0 0;knob 15 h;law turn 0-" + degrees + ";", 15 - Math.min(9, degrees));
             }
+            KnobHall two = Hall.of("room h 100 0 0;person a h 10 0 9;person b h 30 0 0;law turn wish/100;");
+            two.go(1);
+            Hall.due("by what the one who passes WANTS", two.count(4), 23);
+            Hall.due("who turned it", two.turnsOf(0, 0) * 10 + two.turnsOf(1, 0), 1);
         });
         Edge.holds(14, PART, "1, if FELT is below ten times WANTS less 5, -1, if it is above ten times WANTS and 5, else 0, without, with an ERROR)", () -> {
             String[] laws = {"", "law turn 1/0;", "law turn 9999*9999*9999*2;"};
@@ -219,6 +226,9 @@ final class EdgesOfHours {
             hall.jumper(0, true);
             hall.go(1);
             Hall.due("175 and a JUMPER", hall.count(4), 20);
+            hall = Hall.of("room h 200 0 0;room s 194 0 0;person a h 20 0 9;person b s 20 0 0;");
+            hall.go(1);
+            Hall.due("by what the one who passes FEELS", hall.count(4), 21);
         });
     }
 
@@ -270,6 +280,9 @@ final class EdgesOfHours {
                 }
                 cross("room h 0 0 0;person a h 40 0 9;" + law, 40);
                 cross("room h 400 0 0;person a h 0 0 9;" + law, 40);
+                KnobHall two = Hall.of("room h 200 0 0;person a h 20 0 9;person b h 30 0 9;" + law);
+                two.go(1);
+                Hall.due("each by what it WANTS", two.person(0, 5) * 100 + two.person(1, 5), 10);
             }
         });
     }
@@ -324,6 +337,11 @@ final class EdgesOfHours {
             value("(1 or 1) and 0", 0);
             value("(0 or 7) + (3 and 4)", 2);
             value("not 0 and 0", 0);
+            value("5 + (not 0)", 6);
+            value("5 + (not 7)", 5);
+            value("0 or not 7", 0);
+            value("0 or not 0", 1);
+            value("3 - (2 - (not 0))", 2);
             value("0 and 1/0", ERROR);
             value("1/0 and 0", ERROR);
             value("1 or 1/0", ERROR);

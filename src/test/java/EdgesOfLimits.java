@@ -239,6 +239,9 @@ final class EdgesOfLimits {
             Hall.due("of the one ahead", hall.person(3, 5), 0);
             Hall.due("a JUMPER of the last one", hall.person(4, 6), 1);
             Hall.due("none of the one ahead", hall.person(3, 6), 0);
+            hall = full("law lose 0;law cross felt*(wish = 400);knob 5 e;");
+            hall.jumper(4, true);
+            Hall.due("FELT by the last one with it", hall.ahead(1, 2, 0), 420);
             hall = last("room h 0 0 0;person a h 0 0 0;law cross 9999;");
             Hall.due("CROSS in 9900 HOURS", hall.person(0, 5), 9900 * 999);
             Hall.due("of all", hall.count(11), 9900 * 999);

@@ -146,7 +146,28 @@ final class EdgesOfText {
             Hall.due("what can be undone", hall.count(14), 0);
             Hall.due("undo()", hall.undo(), -1);
             Hall.due("back()", hall.back(), -1);
+            lastOfEachRow();
         });
+    }
+
+    /** The fifth PERSON, HOUR 23, and WEAR where a STRIKE is then. */
+    private static void lastOfEachRow() {
+        String five = "room h 100 0 0;person a h 20 0 1;person b h 20 0 1;person c h 20 0 1;person d h 20 0 1;person e h 20 0 23;";
+        KnobHall hall = Hall.of(five);
+        hall.jumper(4, true);
+        hall.go(24);
+        for (int i = 0; i < 24; i++) {
+            hall.wear(8, 30, true);
+        }
+        Hall.due("the fifth turned it in HOUR 23", hall.learn(23), 25);
+        Hall.due("by none", hall.lately(0), 0);
+        Hall.due("text", Hall.tell(hall, five), 6);
+        Hall.due("no JUMPER of the fifth", hall.person(4, 6), 0);
+        Hall.due("nor TURNS, nor CROSS", hall.turnsOf(4, 0) + hall.person(4, 5), 0);
+        Hall.due("nothing learnt in HOUR 23", hall.learn(23), -2);
+        Hall.due("WEAR anew", hall.wear(8, 5, true), 0);
+        Hall.due("a STRIKE", hall.strike(0), 1);
+        Hall.due("none KNOWN then", hall.lately(0), 63);
     }
 
     /** Two texts that tell all, and hours in both: no row of the hall is as it was made. */

@@ -3,6 +3,9 @@ final class EdgesOfWear {
     private static final int[] FAR_OFF = {-2, -3, Integer.MIN_VALUE, Integer.MAX_VALUE};
     /** a passes in HOUR 7 and turns it by 3 less LATE: behind 8 HOURS SET is 23 - LATE. */
     private static final String HOUSE = "room h 100 0 10;person a h 20 2 7;person b h 20 0 23;law turn (wish = 200)*(felt - 150)/10*(hour = 7);";
+    /** b, 3 LATE, turns it in HOUR 5, a, 2 LATE, in HOUR 7. */
+    private static final String TWO = "room h 100 0 10;person a h 20 2 7;person b h 21 3 5;knob 24 h;"
+        + "law turn (felt - 150)/10*(hour = 7) + (felt - 130)/10*(hour = 5);";
     /** a turns it up by 1 in each HOUR 11: behind 12, 36 and 60 HOURS. */
     private static final String ELEVEN = "room h 100 0 0;person a h 20 0 11;law turn 1;";
 
@@ -78,6 +81,14 @@ final class EdgesOfWear {
             eleven(36, 22);
             eleven(59, 22);
             eleven(60, 23);
+            KnobHall several = Hall.of(ELEVEN);
+            several.wear(1, 20, true);
+            several.wear(12, 21, true);
+            several.wear(60, 23, true);
+            several.wear(12, 22, false);
+            Hall.due("each behind its own HOURS", several.lately(0), 63);
+            several.wear(59, 23, true);
+            Hall.due("but one", several.lately(0), 0);
             KnobHall hall = Hall.of(ELEVEN.replace(" 11;", " 0;"));
             hall.wear(1, 21, true);
             hall.wear(1, 22, false);
@@ -218,6 +229,19 @@ final class EdgesOfWear {
                 Hall.due("LATE " + late + " alone", hall.lately(0), 1 << late);
                 // b changes nothing: by a's LATE as told, 2, it is so or it isn't.
                 Hall.due("of b", hall.lately(1), late == 2 ? 63 : 0);
+            }
+            for (int late = 0; late <= 5; late++) {
+                // Each turns it by 3 less LATE: behind 6 HOURS SET is 27 less b's LATE, behind 8 it is 30 less both.
+                hall = Hall.of(TWO);
+                hall.wear(6, 27 - late, true);
+                hall.wear(6, 28 - late, false);
+                Hall.due("of b alone, LATE " + late, hall.lately(1), 1 << late);
+                Hall.due("of a, b being as told", hall.lately(0), late == 3 ? 63 : 0);
+                hall = Hall.of(TWO);
+                hall.wear(8, 27 - late, true);
+                hall.wear(8, 28 - late, false);
+                Hall.due("of a by both, LATE " + late, hall.lately(0), 1 << late);
+                Hall.due("of b by both", hall.lately(1), late == 5 ? 0 : 2 << late);
             }
             hall = Hall.of(HOUSE);
             hall.wear(8, 24, true);

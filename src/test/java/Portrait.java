@@ -20,6 +20,7 @@ final class Portrait {
         }
         past();
         image();
+        gone();
         if (!butTape) {
             tape();
         }
@@ -87,6 +88,11 @@ final class Portrait {
 
     private void image() {
         see("back()", hall.back());
+        now();
+    }
+
+    private void gone() {
+        see("go(9)", hall.go(9));
         now();
     }
 
