@@ -2,10 +2,13 @@ import java.io.IOException;
 import java.io.UncheckedIOException;
 import java.nio.file.Files;
 import java.nio.file.Path;
+import java.util.BitSet;
 import java.util.List;
 import java.util.TreeSet;
 import java.util.function.Consumer;
 import java.util.function.Supplier;
+import java.util.regex.Matcher;
+import java.util.regex.Pattern;
 
 /** A sentence of the document that names a boundary case, and the test that holds it. */
 final class Edge {
@@ -13,6 +16,10 @@ final class Edge {
     private static final int PROMISES = 44;
     private static final String DOC = document();
     private static final TreeSet<String> HELD = new TreeSet<>();
+    /** Which signs of the document stand in a sentence that is held. */
+    private static final BitSet QUOTED = new BitSet();
+    /** What tells where one is in the document, and promises nothing. */
+    private static final Pattern SIGNPOSTS = Pattern.compile("## Promise \\d+: [\\w ]+`[^`]*`:|## Terms|```(text)?|==== \\d\\.");
     private static int sentences;
 
     private Edge() { }
@@ -63,6 +70,7 @@ final class Edge {
     static void holds(int promise, String part, String sentence, Runnable test) {
         Hall.about("promise " + promise + ", " + part + " \"" + sentence + "\": ");
         Hall.due("the document says so, which", wordsOf(part).contains(plain(sentence)), true);
+        quote(part, plain(sentence));
         Hall.due("held once alone, which", HELD.add(part + sentence), true);
         int before = Hall.looked();
         try {
@@ -76,14 +84,39 @@ final class Edge {
         Hall.about("");
     }
 
-    /** Every promise has a sentence that is held. */
+    private static void quote(String part, String sentence) {
+        int at = wordsOf(part).indexOf(sentence);
+        if (at >= 0) {
+            int start = DOC.indexOf(startOf(part)) + at;
+            QUOTED.set(start, start + sentence.length());
+        }
+    }
+
+    /** Every promise has a sentence that is held, and no word from the terms to the last promise is left out. */
     static void end() {
         for (int promise = 1; promise <= PROMISES; promise++) {
             String part = "Promise " + promise;
             Hall.due(part + " has a sentence that is held, which", HELD.contains(part), true);
         }
+        lookForWordsLeftOut();
         System.out.println(sentences + " sentences held");
         Hall.end();
+    }
+
+    private static void lookForWordsLeftOut() {
+        Matcher signpost = SIGNPOSTS.matcher(DOC);
+        while (signpost.find()) {
+            QUOTED.set(signpost.start(), signpost.end());
+        }
+        int last = DOC.indexOf("## Not promised");
+        int left = QUOTED.nextClearBit(DOC.indexOf("## Terms"));
+        while (left < last) {
+            int next = QUOTED.nextSetBit(left);
+            int end = next < 0 || next > last ? last : next;
+            String words = DOC.substring(left, end);
+            Hall.due("no sentence that is held says \"" + words.trim() + "\", which", words.matches("[ ,.:;]*"), true);
+            left = QUOTED.nextClearBit(end + 1);
+        }
     }
 
     /** Of two halls that are made alike, what is called on the second one leaves it as the first one is. */

@@ -76,7 +76,7 @@ final class EdgesOfAhead {
     }
 
     private static void soon() {
-        Edge.holds(16, "==== 3.", "in how many HOURS, 200 at most, it is so WARM at least, if the knob were SET so and nobody turned it (0: it is now).", () -> {
+        Edge.holds(16, "==== 3.", "SOON for a ROOM and tenths: in how many HOURS, 200 at most, it is so WARM at least, if the knob were SET so and nobody turned it (0: it is now).", () -> {
             KnobHall hall = Hall.of(RISING + "law turn 9;");
             Hall.due("99", hall.soon(0, 99, 5), 0);
             Hall.due("100, now", hall.soon(0, 100, 5), 0);
@@ -116,7 +116,7 @@ final class EdgesOfAhead {
     private static void quicker() {
         // By 5 .. 9 a tenth an HOUR, by 10 .. 14 two and so on.
         String house = "room h 100 0 0;person a h 0 0 0;law turn 9;law lose 0 - set/50;";
-        Edge.holds(17, "==== 3.", "whether it is SOON by the second one earlier than by the first one (one that is not by 200 is later than all).", () -> {
+        Edge.holds(17, "==== 3.", "QUICKER for a ROOM, tenths, two SETS: whether it is SOON by the second one earlier than by the first one (one that is not by 200 is later than all).", () -> {
             KnobHall hall = Hall.of(house);
             Hall.due("200 and 100 HOURS", hall.quicker(0, 300, 5, 10), 1);
             Hall.due("100 and 200", hall.quicker(0, 300, 10, 5), 0);
@@ -163,7 +163,7 @@ final class EdgesOfAhead {
     }
 
     private static void swings() {
-        Edge.holds(23, "==== 3.", "how often SET is turned (so that it is another one) the other way than the last time in these.", () -> {
+        Edge.holds(23, "==== 3.", "SWINGS for n HOURS as it goes: how often SET is turned (so that it is another one) the other way than the last time in these.", () -> {
             KnobHall hall = Hall.of(TO_AND_FRO);
             Hall.due("up", hall.swings(1), 0);
             Hall.due("up, down", hall.swings(2), 1);

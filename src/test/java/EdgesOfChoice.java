@@ -31,7 +31,7 @@ final class EdgesOfChoice {
     }
 
     private static void best() {
-        Edge.holds(18, "==== 3.", "the SET 5 .. 30, nobody turning it, by which all are least CROSS more, of several the first.", () -> {
+        Edge.holds(18, "==== 3.", "BEST for n HOURS: the SET 5 .. 30, nobody turning it, by which all are least CROSS more, of several the first.", () -> {
             best("set", 5, 100);
             best("999 - set", 30, 1398);
             best("(set < 290)*400 + set", 29, 580);
@@ -68,7 +68,7 @@ final class EdgesOfChoice {
     }
 
     private static void cheap() {
-        Edge.holds(19, "==== 3.", "the SET by which least is PAID, all being CROSS by no more than the bound more, nobody turning; of several the first.", () -> {
+        Edge.holds(19, "==== 3.", "CHEAP for n HOURS and a bound: the SET by which least is PAID, all being CROSS by no more than the bound more, nobody turning; of several the first.", () -> {
             // In two HOURS CROSS by 20 for each degree below 30; no fire by 5 .. 10.
             KnobHall hall = Hall.of(STILL + "law cross 300 - set;");
             Hall.due("bound 500, all of them", hall.cheap(2, 500), 5);
@@ -116,7 +116,7 @@ final class EdgesOfChoice {
     private static void hears() {
         // By 20 it is ON where it is below 200; p in s is least CROSS by fire, q in h without.
         String rooms = "room h 200 0 50;room s 199 0 50;room t 199 0 50;";
-        Edge.holds(20, "==== 3.", "the ROOM that the knob should hear so that all are least CROSS more, nobody turning it (CANDLE as it is), the first of several.", () -> {
+        Edge.holds(20, "==== 3.", "HANG for n HOURS: the ROOM that the knob should hear so that all are least CROSS more, nobody turning it (CANDLE as it is), the first of several.", () -> {
             Hall.due("fire is better: s, not t", Hall.of(rooms + "person p s 25 0 0;law turn 9;").hears(1), 1);
             Hall.due("no fire is better: h", Hall.of(rooms + "person p s 20 0 0;knob 20 t;").hears(1), 0);
             Hall.due("all alike", Hall.of(rooms).hears(1), 0);
@@ -241,7 +241,7 @@ final class EdgesOfChoice {
     }
 
     private static void degree() {
-        Edge.holds(24, "==== 3.", "what is PAID more by one degree more SET than by now's, nobody turning (30 at most: 0 there).", () -> {
+        Edge.holds(24, "==== 3.", "DEGREE for n HOURS: what is PAID more by one degree more SET than by now's, nobody turning (30 at most: 0 there).", () -> {
             KnobHall hall = Hall.of("room h 290 0 0;person a h 40 0 0;law turn 9;price 7;knob 28 h;");
             Hall.due("29: 290 isn't below 290", hall.degree(9), 0);
             hall.set(29);
@@ -319,7 +319,7 @@ final class EdgesOfChoice {
     }
 
     private static void strip() {
-        Edge.holds(31, "==== 3.", "what is PAID less, if LEAK of the ROOM is half of it, cut (0 at least; nobody turning).", () -> {
+        Edge.holds(31, "==== 3.", "STRIP of a ROOM for n HOURS: what is PAID less, if LEAK of the ROOM is half of it, cut (0 at least; nobody turning).", () -> {
             // By 20 it is ON, as long as less than 200: it stays, if LEAK by half is 1, and gets warm by 0.
             String house = "room h 199 # 0;room s 100 9 0;person a h 40 0 0;law turn 9;price 1;law lose leak - 1;";
             Hall.due("half of 1 is 0", Hall.of(house.replace("#", "1")).strip(0, 9), 8);

@@ -135,7 +135,7 @@ final class EdgesOfDoing {
     }
 
     private static void undoable() {
-        Edge.holds(41, "==== 4.", "can be undone, the latest first (20 at most), if no HOUR went by since.", () -> {
+        Edge.holds(41, "==== 4.", "The knob turned, hung, CANDLES, JUMPERS by call can be undone, the latest first (20 at most), if no HOUR went by since.", () -> {
             for (int calls = 19; calls <= 22; calls++) {
                 KnobHall hall = Hall.of(HOUSE);
                 for (int i = 0; i < calls; i++) {

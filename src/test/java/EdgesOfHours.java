@@ -52,7 +52,7 @@ final class EdgesOfHours {
     }
 
     private static void stove() {
-        Edge.holds(14, PART, "the stove is ON, if what the knob hears is below ten times SET (without ROOMS: it isn't)", () -> {
+        Edge.holds(14, PART, "(1) the stove is ON, if what the knob hears is below ten times SET (without ROOMS: it isn't)", () -> {
             onBy("room h 199 0 40;", true);
             onBy("room h 200 0 40;", false);
             onBy("room h 201 0 40;", false);
@@ -162,7 +162,7 @@ final class EdgesOfHours {
     }
 
     private static void late() {
-        Edge.holds(14, PART, "FEELS the WARM of its ROOM as it was LATE HOURS ago (behind (2) of that HOUR; at first: as told), and 20 for a JUMPER;", () -> {
+        Edge.holds(14, PART, "(3) by numbers each PERSON FEELS the WARM of its ROOM as it was LATE HOURS ago (behind (2) of that HOUR; at first: as told), and 20 for a JUMPER;", () -> {
             for (int late = 0; late <= 5; late++) {
                 KnobHall hall = Hall.of("room s 7 0 0;room h 100 0 10;person a h 20 " + late + " 9;knob 30 h;law cross felt;");
                 int cross = 0;
@@ -311,7 +311,14 @@ final class EdgesOfHours {
     }
 
     private static void truths() {
-        Edge.holds(9, PART, "comparisons, and, or, not are 1 or 0 (what isn't 0 is as 1, both sides are worked out)", () -> {
+        Edge.holds(9, PART, "VALUES are longs; comparisons, and, or, not are 1 or 0 (what isn't 0 is as 1, both sides are worked out)", () -> {
+            value("9999*9999*99", 9898020099L);
+            value("0-9999*9999*99", -9898020099L);
+            value("4096*4096*256 = 0", 0);
+            value("4096*4096*256 > 4096*4096*128", 1);
+            value("not (4096*4096*256)", 0);
+            value("4096*4096*256 and 4096*4096*256", 1);
+            value("0 or 4096*4096*256", 1);
             String[] signs = {"<", "<=", "=", "<>", ">=", ">"};
             // Of 1 and 2, 2 and 2, 3 and 2.
             int[][] due = {{1, 0, 0}, {1, 1, 0}, {0, 1, 0}, {1, 0, 1}, {0, 1, 1}, {0, 0, 1}};

@@ -117,7 +117,7 @@ final class EdgesOfLimits {
     }
 
     private static void namesOfRooms() {
-        Edge.holds(9, HOURS, "warm: WARM of the ROOM (of turn, cross that of where one sits); outer: OUT of this HOUR;", () -> {
+        Edge.holds(9, HOURS, "NAMES: warm: WARM of the ROOM (of turn, cross that of where one sits); outer: OUT of this HOUR;", () -> {
             KnobHall hall = Hall.of("room h 0 0 0;room s 400 0 0;person a s 20 5 9;person b h 20 5 9;out 0;out 400;knob 5 h;"
                 + "law lose warm*1000 + outer;law turn warm*1000 + outer;law cross warm*1000 + outer;");
             Hall.due("0 and 0", hall.law(0, 0), 0);

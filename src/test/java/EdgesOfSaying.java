@@ -56,6 +56,19 @@ final class EdgesOfSaying {
             // However far they are apart, each has it a degree nearer for 6.
             due(0, 40, 21);
         });
+        Edge.holds(26, "==== 3.", "each loses how far ten times that is from ten times what one WANTS,", () -> {
+            // 20 and 24: by the truth it is 22, twenty off for both; each would have it a degree nearer for 6, and then
+            // who said the truth alone would have it thirty off: both lie, and it is 22 still.
+            due(20, 24, 21);
+            due(24, 20, 12);
+            // 33 and 26: 29 is forty off for the one, thirty for the other one.
+            due(33, 26, 12);
+            // As far off whatever one says: 30 from both of 36 and 38, 5 from both of 1 and 3.
+            due(36, 38, 0);
+            due(38, 36, 0);
+            due(1, 3, 0);
+            due(3, 1, 0);
+        });
         Edge.holds(26, "==== 3.", "and 6, if one didn't say what one WANTS.", () -> {
             // 20 and 22: by the truth 21, ten off for both; by two less a has it: 6.
             due(20, 22, 21);
@@ -66,7 +79,7 @@ final class EdgesOfSaying {
     }
 
     private static void sayings() {
-        Edge.holds(26, "==== 3.", "each says 0 what one WANTS, 1 two degrees more, 2 two less;", () -> {
+        Edge.holds(26, "==== 3.", "SAY of two PEOPLE: each says 0 what one WANTS, 1 two degrees more, 2 two less;", () -> {
             // Beyond what one may want: -2 and 42 are 20, as -1 and 41 are.
             due(0, 40, 21);
             due(40, 0, 12);

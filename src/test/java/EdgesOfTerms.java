@@ -356,6 +356,15 @@ final class EdgesOfTerms {
             Hall.due("count(1)", Hall.of(ROOM + "person a r 1 1 1;person b r 1 1 1;person c r 1 1 1;person d r 1 1 1;"
                 + "person e r 1 1 1;").count(1), 5);
         });
+        Edge.holds(3, "Terms", "sits in a ROOM,", () -> {
+            KnobHall hall = Hall.of("room a 10 0 0;room b 20 0 0;person p b 1 1 1;"
+                + "room c 30 0 0;person q a 1 1 1;room d 40 0 0;room e 50 0 0;person r e 1 1 1;person a d 1 1 1;person e a 1 1 1;");
+            int[] sits = {1, 0, 4, 3, 0};
+            for (int person = 0; person < sits.length; person++) {
+                Hall.due("the ROOM of " + person, hall.person(person, 0), sits[person]);
+                Hall.due("it FEELS that one", hall.person(person, 4), 10 + 10 * sits[person]);
+            }
+        });
         Edge.holds(3, "Terms", "WANTS 0 .. 40 degrees", () -> {
             number(ROOM + "person p r # 1 1;", 0, 40);
             Hall.due("0", Hall.of(ROOM + "person p r 0 1 1;").person(0, 1), 0);
